@@ -81,6 +81,8 @@ public final class BuilderTest {
         due.is("3 signs(0, 3, abc)", x.signs(0, 3, 0x5a616263L), 3);
         due.is("3 signs(0, 0, abc)", x.signs(0, 0, 0x616263L), 3);
         due.is("3 signs", Due.builder(x, 0), "abc");
+        due.is("3 signs(0, 2, xy)", x.signs(0, 2, 0x7879L), 5);
+        due.is("3 signs behind signs", Due.builder(x, 0), "abcxy");
         due.is("3 signs(1, 8, -2)", x.signs(1, 8, -2L), 8);
         due.is("3 signs of -2", Due.builder(x, 1), "\u00ff".repeat(7) + "\u00fe");
         due.is("3 signs(2, 8, ..)", x.signs(2, 8, 0x4142434445464748L), 8);

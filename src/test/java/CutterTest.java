@@ -173,6 +173,10 @@ public final class CutterTest {
         Due.write(x, 4, "");
         due.is("45 nextBy(1, 4, 2), no separators", x.nextBy(1, 4, 2), 3);
         due.is("45 all that is left", Due.text(x, 2), "c,d");
+        RowsOfSigns y = with("a\u0000b\u00ffc,d", "\u0000\u00ff");
+        Due.write(y, 2, ",");
+        y.cutter(0, 0, 1, false);
+        due.is("45 nextBy without the signs 0 and 255", y.nextBy(0, 2, 3), 5);
     }
 
     private static void nextByRefused() {

@@ -294,6 +294,8 @@ public final class TextTest {
         due.is("36 join", Due.text(x, 3), "abcde");
         due.is("36 join(1, 2, 5)", x.join(1, 2, 5), 2);
         due.is("36 join(2, 2, 2)", x.join(2, 2, 2), 0);
+        due.is("36 join(2, 2, 3)", x.join(2, 2, 3), 0);
+        due.is("36 join of empty ones", Due.text(x, 3), "");
         due.is("36 join(0, 1, 1)", x.join(0, 1, 1), 5);
         due.is("36 join into the other", Due.text(x, 1), "abcde");
         due.is("36 join(0, 0, 0)", x.join(0, 0, 0), 6);
