@@ -1,9 +1,9 @@
-/** Promises 1 to 21: a new object, and what is done to builders. */
+/** Promises 1 to 21: a new object, and what is done to builders; a test of each sentence. */
 public final class BuilderTest {
-    private static final Due due = new Due();
+    private static final Due due = Due.ofPromises(1, 21);
     private static final int MIN = Integer.MIN_VALUE;
     private static final int MAX = Integer.MAX_VALUE;
-    private static final int UNKNOWN = -1001, OUTSIDE = -1002, MISSING = -1003, COUNT = -1004, PLACE = -1005, FULL = -1007;
+    private static final int NONE = -1, UNKNOWN = -1001, MISSING = -1003, COUNT = -1004, PLACE = -1005, FULL = -1007;
 
     public static void main(String[] args) {
         newObject();
@@ -27,412 +27,556 @@ public final class BuilderTest {
         last();
         take();
         ahead();
-        objectsAreApart();
         due.end();
     }
 
-    private static RowsOfSigns with(String builder0, String text0) {
-        RowsOfSigns x = new RowsOfSigns();
-        Due.build(x, 0, builder0);
-        Due.write(x, 0, text0);
+    /** Builder 0 is abc; text 0 is UVW, text 1 is empty, text 2 is missing, text 3 was forgotten. */
+    private static RowsOfSigns small() {
+        return holding("abc");
+    }
+
+    private static RowsOfSigns holding(String builder0) {
+        RowsOfSigns x = Rows.with(builder0, "UVW", "", null, "gone");
+        x.forget(3);
         return x;
     }
 
-    /** Builder 0 has as many signs as are told, text 0 is ab, text 1 is empty, text 2 is missing. */
-    private static RowsOfSigns near(int signs) {
-        RowsOfSigns x = with("a".repeat(signs), "ab");
-        Due.write(x, 1, "");
-        return x;
+    private static RowsOfSigns alike() {
+        return Rows.alike("abc");
+    }
+
+    /** The call lets builder 0 grow by so many signs: to 200 it does, to 201 it is refused. */
+    private static void full(String call, int growth, Due.Call made) {
+        due.is(call + " to 200", made.on(holding("x".repeat(200 - growth))), 200);
+        due.refused(() -> holding("x".repeat(201 - growth)), call + " to 201", FULL, made);
+    }
+
+    /** What the call answers, and what it leaves in builder 0. */
+    private static void leaves(RowsOfSigns x, String call, Due.Call made, int want, String row) {
+        due.is(call, made.on(x), want);
+        due.is(call, Rows.builder(x, 0), row);
     }
 
     private static void newObject() {
-        RowsOfSigns x = new RowsOfSigns();
-        for (int b = 0; b < 4; b++) {
-            due.is("1 size(" + b + ")", x.size(b), 0);
-        }
-        for (int t = 0; t < 8; t++) {
-            due.is("1 textSize(" + t + ")", x.textSize(t), -1);
-        }
-        for (int c = 0; c < 2; c++) {
-            due.is("1 left(" + c + ")", x.left(c), MISSING);
-        }
-        due.is("1 parts()", x.parts(), 0);
+        due.test("Promise 1", "All as at first", () -> {
+            RowsOfSigns x = new RowsOfSigns();
+            for (int b = 0; b < 4; b++) {
+                due.is("size(" + b + ")", x.size(b), 0);
+            }
+            for (int t = 0; t < 8; t++) {
+                due.is("textSize(" + t + ")", x.textSize(t), NONE);
+            }
+            due.is("parts()", x.parts(), 0);
+            due.is("left(0)", x.left(0), MISSING);
+            due.is("left(1)", x.left(1), MISSING);
+            long before = x.digest();
+            RowsOfSigns y = alike();
+            y.split(0, 'b', 0);
+            due.is("digest() when another object was changed", x.digest(), before);
+            due.is("digest() of one more object", new RowsOfSigns().digest(), before);
+        });
     }
 
     private static void sign() {
-        RowsOfSigns x = new RowsOfSigns();
-        due.is("2 sign(0, 0)", x.sign(0, 0), 1);
-        due.is("2 sign(0, 255)", x.sign(0, 255), 2);
-        due.is("2 sign(3, 97)", x.sign(3, 97), 1);
-        due.is("2 sign", Due.builder(x, 0), "\u0000\u00ff");
-        due.refused(x, "2 sign(-1, 1)", UNKNOWN, () -> x.sign(-1, 1));
-        due.refused(x, "2 sign(4, -1)", UNKNOWN, () -> x.sign(4, -1));
-        due.refused(x, "2 sign(0, -1)", OUTSIDE, () -> x.sign(0, -1));
-        due.refused(x, "2 sign(0, 256)", OUTSIDE, () -> x.sign(0, 256));
-        RowsOfSigns y = near(199);
-        due.is("2 sign to 200", y.sign(0, 7), 200);
-        due.refused(y, "2 sign beyond 200", FULL, () -> y.sign(0, 7));
-        due.refused(y, "2 no sign beyond 200", OUTSIDE, () -> y.sign(0, 256));
-        due.refused(y, "2 sign(MIN, 1)", UNKNOWN, () -> y.sign(MIN, 1));
+        due.test("Promise 2", "A SIGN is appended: how many there are then", () -> {
+            RowsOfSigns x = new RowsOfSigns();
+            leaves(x, "sign(0, 97)", y -> y.sign(0, 'a'), 1, "a");
+            leaves(x, "sign(0, 98)", y -> y.sign(0, 'b'), 2, "ab");
+            due.is("size(1)", x.size(1), 0);
+        });
+        due.test("Promise 2", "UNKNOWN",
+                () -> due.builders(BuilderTest::alike, "sign(b, 97)", 4, (x, b) -> x.sign(b, 97)));
+        due.test("Promise 2", "OUTSIDE: no SIGN", () -> {
+            due.signs(BuilderTest::small, "sign(0, s)", 4, 4, (x, s) -> x.sign(0, s));
+            leaves(small(), "sign(0, 0)", x -> x.sign(0, 0), 4, "abc\u0000");
+            leaves(small(), "sign(0, 255)", x -> x.sign(0, 255), 4, "abc\u00ff");
+        });
+        due.test("Promise 2", "FULL", () -> full("sign(0, 97)", 1, x -> x.sign(0, 97)));
     }
 
     private static void signs() {
-        RowsOfSigns x = new RowsOfSigns();
-        due.is("3 signs(0, 3, abc)", x.signs(0, 3, 0x5a616263L), 3);
-        due.is("3 signs(0, 0, abc)", x.signs(0, 0, 0x616263L), 3);
-        due.is("3 signs", Due.builder(x, 0), "abc");
-        due.is("3 signs(0, 2, xy)", x.signs(0, 2, 0x7879L), 5);
-        due.is("3 signs behind signs", Due.builder(x, 0), "abcxy");
-        due.is("3 signs(1, 8, -2)", x.signs(1, 8, -2L), 8);
-        due.is("3 signs of -2", Due.builder(x, 1), "\u00ff".repeat(7) + "\u00fe");
-        due.is("3 signs(2, 8, ..)", x.signs(2, 8, 0x4142434445464748L), 8);
-        due.is("3 signs of eight", Due.builder(x, 2), "ABCDEFGH");
-        due.refused(x, "3 signs(0, 9, 0)", OUTSIDE, () -> x.signs(0, 9, 0));
-        due.refused(x, "3 signs(0, -1, 0)", OUTSIDE, () -> x.signs(0, -1, 0));
-        due.refused(x, "3 signs(4, 9, 0)", UNKNOWN, () -> x.signs(4, 9, 0));
-        due.refused(x, "3 signs(-1, 1, 0)", UNKNOWN, () -> x.signs(-1, 1, 0));
-        RowsOfSigns y = near(198);
-        due.refused(y, "3 signs beyond 200", FULL, () -> y.signs(0, 3, 0));
-        due.is("3 signs to 200", y.signs(0, 2, 0), 200);
-        due.is("3 no signs at 200", y.signs(0, 0, 0), 200);
-        due.refused(y, "3 nine signs at 200", OUTSIDE, () -> y.signs(0, 9, 0));
+        due.test("Promise 3", "n SIGNS (0 to 8) are appended, the lowest n bytes of letters, "
+                + "the highest of these first: how many there are then", () -> {
+            RowsOfSigns x = new RowsOfSigns();
+            leaves(x, "signs(0, 0, ..)", y -> y.signs(0, 0, 0x616263L), 0, "");
+            leaves(x, "signs(0, 1, ..)", y -> y.signs(0, 1, 0x616263L), 1, "c");
+            leaves(x, "signs(0, 2, ..)", y -> y.signs(0, 2, 0x616263L), 3, "cbc");
+            leaves(x, "signs(0, 4, ..)", y -> y.signs(0, 4, 0x616263L), 7, "cbc\u0000abc");
+            x.length(0, 0);
+            leaves(x, "signs(0, 8, ..)", y -> y.signs(0, 8, 0x4142434445464748L), 8, "ABCDEFGH");
+            x.length(0, 0);
+            leaves(x, "signs(0, 7, ..)", y -> y.signs(0, 7, 0x4142434445464748L), 7, "BCDEFGH");
+            x.length(0, 0);
+            leaves(x, "signs(0, 8, -2)", y -> y.signs(0, 8, -2), 8, "\u00ff".repeat(7) + "\u00fe");
+            x.length(0, 0);
+            leaves(x, "signs(0, 8, lowest)", y -> y.signs(0, 8, Long.MIN_VALUE), 8, "\u0080" + "\u0000".repeat(7));
+        });
+        due.test("Promise 3", "UNKNOWN",
+                () -> due.builders(BuilderTest::alike, "signs(b, 2, ..)", 5, (x, b) -> x.signs(b, 2, 0x6162L)));
+        due.test("Promise 3", "OUTSIDE: n", () -> due.bounds(BuilderTest::small, "signs(0, n, -1)", 0, 3, 8, 11,
+                Due.OUTSIDE, (x, n) -> x.signs(0, n, -1)));
+        due.test("Promise 3", "FULL", () -> {
+            full("signs(0, 1, ..)", 1, x -> x.signs(0, 1, 0x6162L));
+            full("signs(0, 8, ..)", 8, x -> x.signs(0, 8, 0x6162L));
+            due.is("signs(0, 0, ..) at 200", holding("x".repeat(200)).signs(0, 0, 0x6162L), 200);
+        });
     }
 
     private static void text() {
-        RowsOfSigns x = with("xy", "abc");
-        due.is("4 text(0, 0)", x.text(0, 0), 5);
-        due.is("4 text(0, 1), missing", x.text(0, 1), 9);
-        due.is("4 text", Due.builder(x, 0), "xyabcnull");
-        due.is("4 the text stays", Due.text(x, 0), "abc");
-        due.is("4 the missing text stays", Due.text(x, 1), "(missing)");
-        due.refused(x, "4 text(4, 0)", UNKNOWN, () -> x.text(4, 0));
-        due.refused(x, "4 text(0, 8)", UNKNOWN, () -> x.text(0, 8));
-        due.refused(x, "4 text(0, -1)", UNKNOWN, () -> x.text(0, -1));
-        RowsOfSigns y = near(197);
-        due.refused(y, "4 the four beyond 200", FULL, () -> y.text(0, 2));
-        due.is("4 text to 199", y.text(0, 0), 199);
-        due.refused(y, "4 text beyond 200", FULL, () -> y.text(0, 0));
-        due.is("4 an empty text", y.text(0, 1), 199);
-        RowsOfSigns z = near(196);
-        due.is("4 the four to 200", z.text(0, 2), 200);
-        due.refused(z, "4 text(0, 8) at 200", UNKNOWN, () -> z.text(0, 8));
+        due.test("Promise 4", "A TEXT is appended: how many there are then", () -> {
+            RowsOfSigns x = small();
+            leaves(x, "text(0, 0)", y -> y.text(0, 0), 6, "abcUVW");
+            leaves(x, "text(0, 1), empty", y -> y.text(0, 1), 6, "abcUVW");
+            due.is("the text", Rows.text(x, 0), "UVW");
+        });
+        due.test("Promise 4", "UNKNOWN", () -> {
+            due.builders(BuilderTest::alike, "text(b, 0)", 6, (x, b) -> x.text(b, 0));
+            due.texts(BuilderTest::alike, "text(0, t)", 6, (x, t) -> x.text(0, t));
+        });
+        due.test("Promise 4", "FULL", () -> {
+            full("text(0, 0)", 3, x -> x.text(0, 0));
+            full("text(0, 2), missing", 4, x -> x.text(0, 2));
+            due.is("text(0, 1), empty, at 200", holding("x".repeat(200)).text(0, 1), 200);
+        });
     }
 
     private static void part() {
-        RowsOfSigns x = with("-", "abcde");
-        due.is("5 part(0, 0, 1, 3)", x.part(0, 0, 1, 3), 3);
-        due.is("5 part(0, 0, 5, 5)", x.part(0, 0, 5, 5), 3);
-        due.is("5 part(0, 0, 0, 5)", x.part(0, 0, 0, 5), 8);
-        due.is("5 part(0, 1, 1, 4), missing", x.part(0, 1, 1, 4), 11);
-        due.is("5 part", Due.builder(x, 0), "-bcabcdeull");
-        due.refused(x, "5 part(0, 0, -1, 3)", PLACE, () -> x.part(0, 0, -1, 3));
-        due.refused(x, "5 part(0, 0, 0, 6)", PLACE, () -> x.part(0, 0, 0, 6));
-        due.refused(x, "5 part(0, 0, 3, 2)", PLACE, () -> x.part(0, 0, 3, 2));
-        due.refused(x, "5 part(0, 1, 0, 5), missing", PLACE, () -> x.part(0, 1, 0, 5));
-        due.refused(x, "5 part(0, 0, MIN, MAX)", PLACE, () -> x.part(0, 0, MIN, MAX));
-        due.refused(x, "5 part(0, 0, MAX, MIN)", PLACE, () -> x.part(0, 0, MAX, MIN));
-        due.refused(x, "5 part(4, 0, -1, 3)", UNKNOWN, () -> x.part(4, 0, -1, 3));
-        due.refused(x, "5 part(0, 8, -1, 3)", UNKNOWN, () -> x.part(0, 8, -1, 3));
-        RowsOfSigns y = near(199);
-        due.refused(y, "5 part beyond 200", FULL, () -> y.part(0, 0, 0, 2));
-        due.refused(y, "5 part out of place beyond 200", PLACE, () -> y.part(0, 0, 0, 3));
-        due.is("5 part to 200", y.part(0, 0, 1, 2), 200);
-        due.is("5 an empty part at 200", y.part(0, 0, 2, 2), 200);
+        due.test("Promise 5", "The SIGNS FROM one place TO another one of a TEXT are appended: "
+                + "how many there are then", () -> {
+            leaves(small(), "part(0, 0, 1, 2)", x -> x.part(0, 0, 1, 2), 4, "abcV");
+            leaves(small(), "part(0, 0, 0, 3)", x -> x.part(0, 0, 0, 3), 6, "abcUVW");
+            leaves(small(), "part(0, 0, 1, 3)", x -> x.part(0, 0, 1, 3), 5, "abcVW");
+            leaves(small(), "part(0, 0, 3, 3)", x -> x.part(0, 0, 3, 3), 3, "abc");
+            leaves(small(), "part(0, 1, 0, 0), empty", x -> x.part(0, 1, 0, 0), 3, "abc");
+        });
+        due.test("Promise 5", "UNKNOWN", () -> {
+            due.builders(BuilderTest::alike, "part(b, 0, 1, 2)", 4, (x, b) -> x.part(b, 0, 1, 2));
+            due.texts(BuilderTest::alike, "part(0, t, 1, 2)", 4, (x, t) -> x.part(0, t, 1, 2));
+        });
+        due.test("Promise 5", "PLACE: from below 0", () -> due.bounds(BuilderTest::small, "part(0, 0, from, 3)",
+                0, 6, 3, 3, PLACE, (x, from) -> x.part(0, 0, from, 3)));
+        due.test("Promise 5", "to above how many SIGNS the TEXT has", () -> {
+            due.bounds(BuilderTest::small, "part(0, 0, 0, to)", 0, 3, 3, 6, PLACE, (x, to) -> x.part(0, 0, 0, to));
+            due.bounds(BuilderTest::small, "part(0, 1, 0, to)", 0, 3, 0, 3, PLACE, (x, to) -> x.part(0, 1, 0, to));
+            due.refused(BuilderTest::small, "part(0, 0, 4, 4)", PLACE, x -> x.part(0, 0, 4, 4));
+        });
+        due.test("Promise 5", "from above to", () -> {
+            leaves(small(), "part(0, 0, 2, 2)", x -> x.part(0, 0, 2, 2), 3, "abc");
+            due.refused(BuilderTest::small, "part(0, 0, 3, 2)", PLACE, x -> x.part(0, 0, 3, 2));
+            due.refused(BuilderTest::small, "part(0, 0, MAX, MIN)", PLACE, x -> x.part(0, 0, MAX, MIN));
+        });
+        due.test("Promise 5", "FULL", () -> {
+            full("part(0, 0, 0, 3)", 3, x -> x.part(0, 0, 0, 3));
+            full("part(0, 0, 2, 3)", 1, x -> x.part(0, 0, 2, 3));
+            due.is("part(0, 0, 3, 3) at 200", holding("x".repeat(200)).part(0, 0, 3, 3), 200);
+        });
     }
 
     private static void number() {
-        RowsOfSigns x = new RowsOfSigns();
-        due.is("6 number(0, 0)", x.number(0, 0), 1);
-        due.is("6 number(0, -7)", x.number(0, -7), 3);
-        due.is("6 number(0, 10200)", x.number(0, 10200), 8);
-        due.is("6 number", Due.builder(x, 0), "0-710200");
-        due.is("6 number(1, lowest)", x.number(1, Long.MIN_VALUE), 20);
-        due.is("6 lowest", Due.builder(x, 1), "-9223372036854775808");
-        due.is("6 number(2, highest)", x.number(2, Long.MAX_VALUE), 19);
-        due.is("6 highest", Due.builder(x, 2), "9223372036854775807");
-        due.refused(x, "6 number(4, 0)", UNKNOWN, () -> x.number(4, 0));
-        due.refused(x, "6 number(-1, 0)", UNKNOWN, () -> x.number(-1, 0));
-        RowsOfSigns y = near(198);
-        due.refused(y, "6 number beyond 200", FULL, () -> y.number(0, -10));
-        due.is("6 number to 200", y.number(0, -1), 200);
-        due.refused(y, "6 number at 200", FULL, () -> y.number(0, 0));
+        due.test("Promise 6", "A number, as SIGNS, is appended: how many there are then", () -> {
+            leaves(small(), "number(0, 0)", x -> x.number(0, 0), 4, "abc0");
+            leaves(small(), "number(0, -10)", x -> x.number(0, -10), 6, "abc-10");
+            leaves(small(), "number(0, highest)", x -> x.number(0, Long.MAX_VALUE), 22, "abc9223372036854775807");
+            leaves(small(), "number(0, lowest)", x -> x.number(0, Long.MIN_VALUE), 23, "abc-9223372036854775808");
+        });
+        due.test("Promise 6", "UNKNOWN",
+                () -> due.builders(BuilderTest::alike, "number(b, 10)", 5, (x, b) -> x.number(b, 10)));
+        due.test("Promise 6", "FULL", () -> {
+            full("number(0, 0)", 1, x -> x.number(0, 0));
+            full("number(0, 10)", 2, x -> x.number(0, 10));
+            full("number(0, -1)", 2, x -> x.number(0, -1));
+            full("number(0, lowest)", 20, x -> x.number(0, Long.MIN_VALUE));
+        });
     }
 
     private static void insert() {
-        RowsOfSigns x = with("xyz", "ab");
-        due.is("7 insert(0, 1, 0)", x.insert(0, 1, 0), 5);
-        due.is("7 insert(0, 0, 0)", x.insert(0, 0, 0), 7);
-        due.is("7 insert(0, 7, 0)", x.insert(0, 7, 0), 9);
-        due.is("7 insert(0, 2, 1), missing", x.insert(0, 2, 1), 13);
-        due.is("7 insert", Due.builder(x, 0), "abnullxabyzab");
-        due.refused(x, "7 insert(0, 14, 0)", PLACE, () -> x.insert(0, 14, 0));
-        due.refused(x, "7 insert(0, -1, 0)", PLACE, () -> x.insert(0, -1, 0));
-        due.refused(x, "7 insert(0, MAX, 0)", PLACE, () -> x.insert(0, MAX, 0));
-        due.refused(x, "7 insert(4, -1, 0)", UNKNOWN, () -> x.insert(4, -1, 0));
-        due.refused(x, "7 insert(0, -1, 8)", UNKNOWN, () -> x.insert(0, -1, 8));
-        RowsOfSigns y = near(199);
-        due.refused(y, "7 insert beyond 200", FULL, () -> y.insert(0, 0, 0));
-        due.refused(y, "7 insert of the four beyond 200", FULL, () -> y.insert(0, 199, 2));
-        due.refused(y, "7 insert out of place beyond 200", PLACE, () -> y.insert(0, 200, 0));
-        due.is("7 insert of an empty text", y.insert(0, 199, 1), 199);
-        RowsOfSigns z = near(198);
-        due.is("7 insert to 200", z.insert(0, 0, 0), 200);
+        due.test("Promise 7", "A TEXT is joined in at a place: how many there are then", () -> {
+            leaves(small(), "insert(0, 0, 0)", x -> x.insert(0, 0, 0), 6, "UVWabc");
+            leaves(small(), "insert(0, 1, 0)", x -> x.insert(0, 1, 0), 6, "aUVWbc");
+            leaves(small(), "insert(0, 3, 0)", x -> x.insert(0, 3, 0), 6, "abcUVW");
+            leaves(small(), "insert(0, 1, 1), empty", x -> x.insert(0, 1, 1), 3, "abc");
+        });
+        due.test("Promise 7", "UNKNOWN", () -> {
+            due.builders(BuilderTest::alike, "insert(b, 1, 0)", 6, (x, b) -> x.insert(b, 1, 0));
+            due.texts(BuilderTest::alike, "insert(0, 1, t)", 6, (x, t) -> x.insert(0, 1, t));
+        });
+        due.test("Promise 7", "PLACE: below 0, above how many SIGNS there were", () -> {
+            due.bounds(BuilderTest::small, "insert(0, at, 0)", 0, 6, 3, 6, PLACE, (x, at) -> x.insert(0, at, 0));
+            due.bounds(BuilderTest::small, "insert(0, at, 1), empty", 0, 3, 3, 3, PLACE,
+                    (x, at) -> x.insert(0, at, 1));
+            due.bounds(BuilderTest::small, "insert(1, at, 0), empty", 0, 3, 0, 3, PLACE,
+                    (x, at) -> x.insert(1, at, 0));
+        });
+        due.test("Promise 7", "FULL", () -> {
+            full("insert(0, 0, 0)", 3, x -> x.insert(0, 0, 0));
+            full("insert(0, 196, 0)", 3, x -> x.insert(0, 196, 0));
+            full("insert(0, 9, 2), missing", 4, x -> x.insert(0, 9, 2));
+            due.is("insert(0, 9, 1), empty, at 200", holding("x".repeat(200)).insert(0, 9, 1), 200);
+        });
     }
 
     private static void insertPart() {
-        RowsOfSigns x = with("xyz", "abcd");
-        due.is("8 insertPart(0, 1, 0, 1, 3)", x.insertPart(0, 1, 0, 1, 3), 5);
-        due.is("8 insertPart(0, 5, 0, 3, 4)", x.insertPart(0, 5, 0, 3, 4), 6);
-        due.is("8 insertPart(0, 2, 0, 4, 4)", x.insertPart(0, 2, 0, 4, 4), 6);
-        due.is("8 insertPart(0, 0, 1, 1, 4), missing", x.insertPart(0, 0, 1, 1, 4), 9);
-        due.is("8 insertPart", Due.builder(x, 0), "ullxbcyzd");
-        due.refused(x, "8 insertPart(0, 10, 0, 0, 1)", PLACE, () -> x.insertPart(0, 10, 0, 0, 1));
-        due.refused(x, "8 insertPart(0, -1, 0, 0, 1)", PLACE, () -> x.insertPart(0, -1, 0, 0, 1));
-        due.refused(x, "8 insertPart(0, 0, 0, -1, 1)", PLACE, () -> x.insertPart(0, 0, 0, -1, 1));
-        due.refused(x, "8 insertPart(0, 0, 0, 0, 5)", PLACE, () -> x.insertPart(0, 0, 0, 0, 5));
-        due.refused(x, "8 insertPart(0, 0, 0, 2, 1)", PLACE, () -> x.insertPart(0, 0, 0, 2, 1));
-        due.refused(x, "8 insertPart(0, 0, 1, 0, 5), missing", PLACE, () -> x.insertPart(0, 0, 1, 0, 5));
-        due.refused(x, "8 insertPart(4, 10, 0, 0, 1)", UNKNOWN, () -> x.insertPart(4, 10, 0, 0, 1));
-        due.refused(x, "8 insertPart(0, 10, -1, 0, 1)", UNKNOWN, () -> x.insertPart(0, 10, -1, 0, 1));
-        RowsOfSigns y = near(199);
-        due.refused(y, "8 insertPart beyond 200", FULL, () -> y.insertPart(0, 0, 0, 0, 2));
-        due.refused(y, "8 insertPart out of place beyond 200", PLACE, () -> y.insertPart(0, 0, 0, 0, 3));
-        due.refused(y, "8 insertPart at no place beyond 200", PLACE, () -> y.insertPart(0, 200, 0, 0, 2));
-        due.is("8 insertPart to 200", y.insertPart(0, 0, 0, 1, 2), 200);
-        due.is("8 its sign", x.at(0, 0), 'u');
+        due.test("Promise 8", "The SIGNS FROM one place TO another one of a TEXT are joined in at a place: "
+                + "how many there are then", () -> {
+            leaves(small(), "insertPart(0, 0, 0, 0, 2)", x -> x.insertPart(0, 0, 0, 0, 2), 5, "UVabc");
+            leaves(small(), "insertPart(0, 2, 0, 1, 3)", x -> x.insertPart(0, 2, 0, 1, 3), 5, "abVWc");
+            leaves(small(), "insertPart(0, 3, 0, 0, 3)", x -> x.insertPart(0, 3, 0, 0, 3), 6, "abcUVW");
+            leaves(small(), "insertPart(0, 1, 0, 3, 3)", x -> x.insertPart(0, 1, 0, 3, 3), 3, "abc");
+        });
+        due.test("Promise 8", "UNKNOWN", () -> {
+            due.builders(BuilderTest::alike, "insertPart(b, 1, 0, 1, 2)", 4, (x, b) -> x.insertPart(b, 1, 0, 1, 2));
+            due.texts(BuilderTest::alike, "insertPart(0, 1, t, 1, 2)", 4, (x, t) -> x.insertPart(0, 1, t, 1, 2));
+        });
+        due.test("Promise 8", "PLACE: as of insert()", () -> {
+            due.bounds(BuilderTest::small, "insertPart(0, at, 0, 1, 2)", 0, 4, 3, 4, PLACE,
+                    (x, at) -> x.insertPart(0, at, 0, 1, 2));
+            due.bounds(BuilderTest::small, "insertPart(0, at, 0, 1, 1)", 0, 3, 3, 3, PLACE,
+                    (x, at) -> x.insertPart(0, at, 0, 1, 1));
+        });
+        due.test("Promise 8", "as of part()", () -> {
+            due.bounds(BuilderTest::small, "insertPart(0, 1, 0, from, 3)", 0, 6, 3, 3, PLACE,
+                    (x, from) -> x.insertPart(0, 1, 0, from, 3));
+            due.bounds(BuilderTest::small, "insertPart(0, 1, 0, 0, to)", 0, 3, 3, 6, PLACE,
+                    (x, to) -> x.insertPart(0, 1, 0, 0, to));
+            due.is("insertPart(0, 1, 0, 2, 2)", small().insertPart(0, 1, 0, 2, 2), 3);
+            due.refused(BuilderTest::small, "insertPart(0, 1, 0, 3, 2)", PLACE, x -> x.insertPart(0, 1, 0, 3, 2));
+            due.refused(BuilderTest::small, "insertPart(0, 1, 0, 4, 4)", PLACE, x -> x.insertPart(0, 1, 0, 4, 4));
+        });
+        due.test("Promise 8", "FULL", () -> {
+            full("insertPart(0, 0, 0, 0, 3)", 3, x -> x.insertPart(0, 0, 0, 0, 3));
+            full("insertPart(0, 199, 0, 2, 3)", 1, x -> x.insertPart(0, 199, 0, 2, 3));
+            due.is("insertPart(0, 9, 0, 1, 1) at 200", holding("x".repeat(200)).insertPart(0, 9, 0, 1, 1), 200);
+        });
     }
 
     private static void insertSign() {
-        RowsOfSigns x = with("xy", "");
-        due.is("9 insertSign(0, 1, 255)", x.insertSign(0, 1, 255), 3);
-        due.is("9 insertSign(0, 3, 0)", x.insertSign(0, 3, 0), 4);
-        due.is("9 insertSign(0, 0, 97)", x.insertSign(0, 0, 97), 5);
-        due.is("9 insertSign", Due.builder(x, 0), "ax\u00ffy\u0000");
-        due.refused(x, "9 insertSign(0, 6, 97)", PLACE, () -> x.insertSign(0, 6, 97));
-        due.refused(x, "9 insertSign(0, -1, 97)", PLACE, () -> x.insertSign(0, -1, 97));
-        due.refused(x, "9 insertSign(0, -1, 256)", OUTSIDE, () -> x.insertSign(0, -1, 256));
-        due.refused(x, "9 insertSign(0, 0, -1)", OUTSIDE, () -> x.insertSign(0, 0, -1));
-        due.refused(x, "9 insertSign(-1, 0, -1)", UNKNOWN, () -> x.insertSign(-1, 0, -1));
-        due.refused(x, "9 insertSign(4, 9, 1)", UNKNOWN, () -> x.insertSign(4, 9, 1));
-        RowsOfSigns y = near(200);
-        due.refused(y, "9 insertSign at 200", FULL, () -> y.insertSign(0, 0, 97));
-        due.refused(y, "9 insertSign at no place at 200", PLACE, () -> y.insertSign(0, 201, 97));
+        due.test("Promise 9", "A SIGN is joined in at a place: how many there are then", () -> {
+            leaves(small(), "insertSign(0, 0, 85)", x -> x.insertSign(0, 0, 'U'), 4, "Uabc");
+            leaves(small(), "insertSign(0, 1, 85)", x -> x.insertSign(0, 1, 'U'), 4, "aUbc");
+            leaves(small(), "insertSign(0, 3, 85)", x -> x.insertSign(0, 3, 'U'), 4, "abcU");
+        });
+        due.test("Promise 9", "UNKNOWN",
+                () -> due.builders(BuilderTest::alike, "insertSign(b, 1, 97)", 4, (x, b) -> x.insertSign(b, 1, 97)));
+        due.test("Promise 9", "OUTSIDE: no SIGN", () -> {
+            due.signs(BuilderTest::small, "insertSign(0, 1, s)", 4, 4, (x, s) -> x.insertSign(0, 1, s));
+            leaves(small(), "insertSign(0, 1, 0)", x -> x.insertSign(0, 1, 0), 4, "a\u0000bc");
+            leaves(small(), "insertSign(0, 1, 255)", x -> x.insertSign(0, 1, 255), 4, "a\u00ffbc");
+        });
+        due.test("Promise 9", "PLACE: as of insert()", () -> {
+            due.bounds(BuilderTest::small, "insertSign(0, at, 97)", 0, 4, 3, 4, PLACE,
+                    (x, at) -> x.insertSign(0, at, 97));
+            due.bounds(BuilderTest::small, "insertSign(1, at, 97), empty", 0, 1, 0, 1, PLACE,
+                    (x, at) -> x.insertSign(1, at, 97));
+        });
+        due.test("Promise 9", "FULL", () -> {
+            full("insertSign(0, 0, 97)", 1, x -> x.insertSign(0, 0, 97));
+            full("insertSign(0, 199, 97)", 1, x -> x.insertSign(0, 199, 97));
+        });
     }
 
     private static void delete() {
-        RowsOfSigns x = with("abcdefgh", "");
-        due.is("10 delete(0, 1, 3)", x.delete(0, 1, 3), 6);
-        due.is("10 delete", Due.builder(x, 0), "adefgh");
-        due.is("10 delete(0, 2, 2)", x.delete(0, 2, 2), 6);
-        due.is("10 delete(0, 6, 6)", x.delete(0, 6, 6), 6);
-        due.is("10 delete(0, 6, MAX)", x.delete(0, 6, MAX), 6);
-        due.is("10 delete(0, 4, 99)", x.delete(0, 4, 99), 4);
-        due.is("10 delete to the end", Due.builder(x, 0), "adef");
-        due.refused(x, "10 delete(0, 5, 9)", PLACE, () -> x.delete(0, 5, 9));
-        due.refused(x, "10 delete(0, -1, 2)", PLACE, () -> x.delete(0, -1, 2));
-        due.refused(x, "10 delete(0, 2, 1)", PLACE, () -> x.delete(0, 2, 1));
-        due.refused(x, "10 delete(0, 0, -1)", PLACE, () -> x.delete(0, 0, -1));
-        due.refused(x, "10 delete(0, 9, 8)", PLACE, () -> x.delete(0, 9, 8));
-        due.refused(x, "10 delete(0, MIN, MAX)", PLACE, () -> x.delete(0, MIN, MAX));
-        due.refused(x, "10 delete(0, MAX, MAX)", PLACE, () -> x.delete(0, MAX, MAX));
-        due.refused(x, "10 delete(4, -1, 2)", UNKNOWN, () -> x.delete(4, -1, 2));
-        due.is("10 delete(0, 0, 4)", x.delete(0, 0, 4), 0);
-        due.is("10 delete(1, 0, 1), empty", x.delete(1, 0, 1), 0);
+        due.test("Promise 10", "The SIGNS FROM one place TO another one are dropped: how many are left", () -> {
+            leaves(small(), "delete(0, 1, 2)", x -> x.delete(0, 1, 2), 2, "ac");
+            leaves(small(), "delete(0, 0, 2)", x -> x.delete(0, 0, 2), 1, "c");
+            leaves(small(), "delete(0, 1, 3)", x -> x.delete(0, 1, 3), 1, "a");
+            leaves(small(), "delete(0, 0, 3)", x -> x.delete(0, 0, 3), 0, "");
+            leaves(small(), "delete(0, 1, 1)", x -> x.delete(0, 1, 1), 3, "abc");
+        });
+        due.test("Promise 10", "UNKNOWN",
+                () -> due.builders(BuilderTest::alike, "delete(b, 1, 2)", 2, (x, b) -> x.delete(b, 1, 2)));
+        due.test("Promise 10", "PLACE: from below 0", () -> due.bounds(BuilderTest::small, "delete(0, from, 3)",
+                0, 0, 3, 3, PLACE, (x, from) -> x.delete(0, from, 3)));
+        due.test("Promise 10", "above how many SIGNS there are", () -> {
+            due.bounds(BuilderTest::small, "delete(0, from, MAX)", 0, 0, 3, 3, PLACE,
+                    (x, from) -> x.delete(0, from, MAX));
+            due.is("delete(1, 0, 1), empty", small().delete(1, 0, 1), 0);
+            due.refused(BuilderTest::small, "delete(1, 1, 1), empty", PLACE, x -> x.delete(1, 1, 1));
+            due.refused(BuilderTest::small, "delete(0, 4, 4)", PLACE, x -> x.delete(0, 4, 4));
+        });
+        due.test("Promise 10", "above to as it is told", () -> {
+            leaves(small(), "delete(0, 2, 2)", x -> x.delete(0, 2, 2), 3, "abc");
+            due.refused(BuilderTest::small, "delete(0, 2, 1)", PLACE, x -> x.delete(0, 2, 1));
+            due.refused(BuilderTest::small, "delete(0, 0, -1)", PLACE, x -> x.delete(0, 0, -1));
+            due.refused(BuilderTest::small, "delete(0, 0, MIN)", PLACE, x -> x.delete(0, 0, MIN));
+            leaves(small(), "delete(0, 3, 4)", x -> x.delete(0, 3, 4), 3, "abc");
+            due.refused(BuilderTest::small, "delete(0, 3, 2)", PLACE, x -> x.delete(0, 3, 2));
+            due.refused(BuilderTest::small, "delete(0, 5, 4)", PLACE, x -> x.delete(0, 5, 4));
+        });
     }
 
     private static void deleteAt() {
-        RowsOfSigns x = with("abcd", "");
-        due.is("11 deleteAt(0, 1)", x.deleteAt(0, 1), 3);
-        due.is("11 deleteAt(0, 2)", x.deleteAt(0, 2), 2);
-        due.is("11 deleteAt", Due.builder(x, 0), "ac");
-        due.refused(x, "11 deleteAt(0, 2), none", PLACE, () -> x.deleteAt(0, 2));
-        due.refused(x, "11 deleteAt(0, -1)", PLACE, () -> x.deleteAt(0, -1));
-        due.refused(x, "11 deleteAt(0, MAX)", PLACE, () -> x.deleteAt(0, MAX));
-        due.refused(x, "11 deleteAt(1, 0)", PLACE, () -> x.deleteAt(1, 0));
-        due.refused(x, "11 deleteAt(4, -1)", UNKNOWN, () -> x.deleteAt(4, -1));
+        due.test("Promise 11", "The SIGN at a place is dropped: how many are left", () -> {
+            leaves(small(), "deleteAt(0, 0)", x -> x.deleteAt(0, 0), 2, "bc");
+            leaves(small(), "deleteAt(0, 1)", x -> x.deleteAt(0, 1), 2, "ac");
+            leaves(small(), "deleteAt(0, 2)", x -> x.deleteAt(0, 2), 2, "ab");
+            leaves(holding("a"), "deleteAt(0, 0) of one", x -> x.deleteAt(0, 0), 0, "");
+        });
+        due.test("Promise 11", "UNKNOWN",
+                () -> due.builders(BuilderTest::alike, "deleteAt(b, 0)", 2, (x, b) -> x.deleteAt(b, 0)));
+        due.test("Promise 11", "PLACE: there is none", () -> {
+            due.bounds(BuilderTest::small, "deleteAt(0, at)", 0, 2, 2, 2, PLACE, (x, at) -> x.deleteAt(0, at));
+            due.refused(BuilderTest::small, "deleteAt(1, 0), empty", PLACE, x -> x.deleteAt(1, 0));
+        });
     }
 
     private static void replace() {
-        RowsOfSigns x = with("abcdef", "XY");
-        Due.write(x, 1, "");
-        due.is("12 replace(0, 1, 4, 0)", x.replace(0, 1, 4, 0), 5);
-        due.is("12 replace", Due.builder(x, 0), "aXYef");
-        due.is("12 replace(0, 2, 2, 0)", x.replace(0, 2, 2, 0), 7);
-        due.is("12 replace of none", Due.builder(x, 0), "aXXYYef");
-        due.is("12 replace(0, 6, 99, 0)", x.replace(0, 6, 99, 0), 8);
-        due.is("12 replace(0, 8, 9, 0)", x.replace(0, 8, 9, 0), 10);
-        due.is("12 replace at the end", Due.builder(x, 0), "aXXYYeXYXY");
-        due.is("12 replace(0, 0, 9, 1)", x.replace(0, 0, 9, 1), 1);
-        due.is("12 replace by nothing", Due.builder(x, 0), "Y");
-        due.refused(x, "12 replace(0, 2, 2, 0)", PLACE, () -> x.replace(0, 2, 2, 0));
-        due.refused(x, "12 replace(0, -1, 1, 0)", PLACE, () -> x.replace(0, -1, 1, 0));
-        due.refused(x, "12 replace(0, 1, 0, 0)", PLACE, () -> x.replace(0, 1, 0, 0));
-        due.refused(x, "12 replace(0, 0, -1, 0)", PLACE, () -> x.replace(0, 0, -1, 0));
-        due.refused(x, "12 replace(0, 0, 1, 2), missing", MISSING, () -> x.replace(0, 0, 1, 2));
-        due.refused(x, "12 replace(0, -1, 1, 2), missing", MISSING, () -> x.replace(0, -1, 1, 2));
-        due.refused(x, "12 replace(4, 0, 1, 2)", UNKNOWN, () -> x.replace(4, 0, 1, 2));
-        due.refused(x, "12 replace(0, 0, 1, 8)", UNKNOWN, () -> x.replace(0, 0, 1, 8));
-        RowsOfSigns y = near(200);
-        due.refused(y, "12 replace beyond 200", FULL, () -> y.replace(0, 3, 4, 0));
-        due.refused(y, "12 replace at no place beyond 200", PLACE, () -> y.replace(0, 201, 300, 0));
-        due.is("12 replace at 200", y.replace(0, 3, 5, 0), 200);
-        due.is("12 replace at 200, its end", y.replace(0, 198, 300, 0), 200);
+        due.test("Promise 12", "The SIGNS FROM one place TO another one are dropped, and a TEXT is joined in there: "
+                + "how many there are then", () -> {
+            leaves(small(), "replace(0, 1, 2, 0)", x -> x.replace(0, 1, 2, 0), 5, "aUVWc");
+            leaves(small(), "replace(0, 0, 3, 0)", x -> x.replace(0, 0, 3, 0), 3, "UVW");
+            leaves(small(), "replace(0, 1, 1, 0), none dropped", x -> x.replace(0, 1, 1, 0), 6, "aUVWbc");
+            leaves(small(), "replace(0, 3, 3, 0), at the end", x -> x.replace(0, 3, 3, 0), 6, "abcUVW");
+        });
+        due.test("Promise 12", "UNKNOWN", () -> {
+            due.builders(BuilderTest::alike, "replace(b, 1, 2, 0)", 5, (x, b) -> x.replace(b, 1, 2, 0));
+            due.texts(BuilderTest::alike, "replace(0, 1, 2, t)", 5, (x, t) -> x.replace(0, 1, 2, t));
+        });
+        due.test("Promise 12", "MISSING", () -> {
+            leaves(small(), "replace(0, 1, 2, 1), empty", x -> x.replace(0, 1, 2, 1), 2, "ac");
+            due.refused(BuilderTest::small, "replace(0, 1, 2, 2)", MISSING, x -> x.replace(0, 1, 2, 2));
+            due.refused(BuilderTest::small, "replace(0, 1, 2, 3), forgotten", MISSING, x -> x.replace(0, 1, 2, 3));
+        });
+        due.test("Promise 12", "PLACE: as of delete()", () -> {
+            due.bounds(BuilderTest::small, "replace(0, from, 3, 0)", 0, 3, 3, 6, PLACE,
+                    (x, from) -> x.replace(0, from, 3, 0));
+            due.bounds(BuilderTest::small, "replace(0, from, MAX, 0)", 0, 3, 3, 6, PLACE,
+                    (x, from) -> x.replace(0, from, MAX, 0));
+            due.refused(BuilderTest::small, "replace(0, 4, 4, 0)", PLACE, x -> x.replace(0, 4, 4, 0));
+            due.is("replace(0, 2, 2, 0)", small().replace(0, 2, 2, 0), 6);
+            due.refused(BuilderTest::small, "replace(0, 2, 1, 0)", PLACE, x -> x.replace(0, 2, 1, 0));
+            due.refused(BuilderTest::small, "replace(0, 0, -1, 0)", PLACE, x -> x.replace(0, 0, -1, 0));
+            due.refused(BuilderTest::small, "replace(0, 5, 4, 0)", PLACE, x -> x.replace(0, 5, 4, 0));
+            due.refused(BuilderTest::small, "replace(0, 4, 4, 1), empty", PLACE, x -> x.replace(0, 4, 4, 1));
+        });
+        due.test("Promise 12", "FULL", () -> {
+            full("replace(0, 0, 0, 0)", 3, x -> x.replace(0, 0, 0, 0));
+            full("replace(0, 0, 2, 0)", 1, x -> x.replace(0, 0, 2, 0));
+            full("replace(0, 197, 300, 0)", 1, x -> x.replace(0, x.size(0) - 2, 300, 0));
+            due.is("replace(0, 1, 4, 0) at 200", holding("x".repeat(200)).replace(0, 1, 4, 0), 200);
+        });
     }
 
     private static void reverse() {
-        RowsOfSigns x = with("abcd", "");
-        due.is("13 reverse(0)", x.reverse(0), 4);
-        due.is("13 reverse of four", Due.builder(x, 0), "dcba");
-        x.deleteAt(0, 0);
-        due.is("13 reverse(0) of three", x.reverse(0), 3);
-        due.is("13 reverse of three", Due.builder(x, 0), "abc");
-        x.reverse(0);
-        x.reverse(0);
-        due.is("13 reverse twice", Due.builder(x, 0), "abc");
-        due.is("13 reverse(1), empty", x.reverse(1), 0);
-        due.refused(x, "13 reverse(4)", UNKNOWN, () -> x.reverse(4));
-        due.refused(x, "13 reverse(-1)", UNKNOWN, () -> x.reverse(-1));
+        due.test("Promise 13", "The row is turned round, the last SIGN the first one: how many there are", () -> {
+            leaves(holding(""), "reverse(0), empty", x -> x.reverse(0), 0, "");
+            leaves(holding("a"), "reverse(0) of one", x -> x.reverse(0), 1, "a");
+            leaves(holding("ab"), "reverse(0) of two", x -> x.reverse(0), 2, "ba");
+            leaves(holding("abc"), "reverse(0) of three", x -> x.reverse(0), 3, "cba");
+            leaves(holding("x".repeat(199) + "y"), "reverse(0) of 200", x -> x.reverse(0), 200,
+                    "y" + "x".repeat(199));
+        });
+        due.test("Promise 13", "UNKNOWN",
+                () -> due.builders(BuilderTest::alike, "reverse(b)", 3, (x, b) -> x.reverse(b)));
     }
 
     private static void put() {
-        RowsOfSigns x = with("abc", "");
-        due.is("14 put(0, 0, 255)", x.put(0, 0, 255), 'a');
-        due.is("14 put(0, 2, 0)", x.put(0, 2, 0), 'c');
-        due.is("14 put(0, 0, 120)", x.put(0, 0, 120), 255);
-        due.is("14 put", Due.builder(x, 0), "xb\u0000");
-        due.refused(x, "14 put(0, 3, 1)", PLACE, () -> x.put(0, 3, 1));
-        due.refused(x, "14 put(0, -1, 1)", PLACE, () -> x.put(0, -1, 1));
-        due.refused(x, "14 put(0, -1, 256)", OUTSIDE, () -> x.put(0, -1, 256));
-        due.refused(x, "14 put(0, 0, -1)", OUTSIDE, () -> x.put(0, 0, -1));
-        due.refused(x, "14 put(4, 0, -1)", UNKNOWN, () -> x.put(4, 0, -1));
+        due.test("Promise 14", "The SIGN at a place becomes another one: what it was", () -> {
+            leaves(small(), "put(0, 0, 85)", x -> x.put(0, 0, 'U'), 'a', "Ubc");
+            leaves(small(), "put(0, 1, 85)", x -> x.put(0, 1, 'U'), 'b', "aUc");
+            leaves(small(), "put(0, 2, 85)", x -> x.put(0, 2, 'U'), 'c', "abU");
+            leaves(small(), "put(0, 2, 99), the same", x -> x.put(0, 2, 'c'), 'c', "abc");
+            leaves(holding("\u00ff\u0000"), "put(0, 0, 85) of 255", x -> x.put(0, 0, 'U'), 255, "U\u0000");
+            leaves(holding("\u00ff\u0000"), "put(0, 1, 85) of 0", x -> x.put(0, 1, 'U'), 0, "\u00ffU");
+        });
+        due.test("Promise 14", "UNKNOWN",
+                () -> due.builders(BuilderTest::alike, "put(b, 0, 97)", 'a', (x, b) -> x.put(b, 0, 97)));
+        due.test("Promise 14", "OUTSIDE: no SIGN", () -> {
+            due.signs(BuilderTest::small, "put(0, 1, s)", 'b', 'b', (x, s) -> x.put(0, 1, s));
+            leaves(small(), "put(0, 1, 0)", x -> x.put(0, 1, 0), 'b', "a\u0000c");
+            leaves(small(), "put(0, 1, 255)", x -> x.put(0, 1, 255), 'b', "a\u00ffc");
+        });
+        due.test("Promise 14", "PLACE: there is none", () -> {
+            due.bounds(BuilderTest::small, "put(0, at, 97)", 0, 'a', 2, 'c', PLACE, (x, at) -> x.put(0, at, 97));
+            due.refused(BuilderTest::small, "put(1, 0, 97), empty", PLACE, x -> x.put(1, 0, 97));
+        });
     }
 
     private static void length() {
-        RowsOfSigns x = with("abcd", "");
-        due.is("15 length(0, 2)", x.length(0, 2), 4);
-        due.is("15 length, less", Due.builder(x, 0), "ab");
-        due.is("15 length(0, 4)", x.length(0, 4), 2);
-        due.is("15 length, more", Due.builder(x, 0), "ab\u0000\u0000");
-        due.is("15 length(0, 4) again", x.length(0, 4), 4);
-        due.is("15 length(0, 0)", x.length(0, 0), 4);
-        due.is("15 length(0, 200)", x.length(0, 200), 0);
-        due.is("15 size(0)", x.size(0), 200);
-        due.refused(x, "15 length(0, 201)", FULL, () -> x.length(0, 201));
-        due.refused(x, "15 length(0, MAX)", FULL, () -> x.length(0, MAX));
-        due.refused(x, "15 length(0, -1)", COUNT, () -> x.length(0, -1));
-        due.refused(x, "15 length(0, MIN)", COUNT, () -> x.length(0, MIN));
-        due.refused(x, "15 length(4, -1)", UNKNOWN, () -> x.length(4, -1));
-        due.refused(x, "15 length(-1, 201)", UNKNOWN, () -> x.length(-1, 201));
+        due.test("Promise 15", "There are n SIGNS then: those beyond are dropped, or SIGNS 0 are appended: "
+                + "how many there were", () -> {
+            leaves(small(), "length(0, 0)", x -> x.length(0, 0), 3, "");
+            leaves(small(), "length(0, 2)", x -> x.length(0, 2), 3, "ab");
+            leaves(small(), "length(0, 3)", x -> x.length(0, 3), 3, "abc");
+            leaves(small(), "length(0, 4)", x -> x.length(0, 4), 3, "abc\u0000");
+            RowsOfSigns x = small();
+            x.length(0, 1);
+            leaves(x, "length(0, 3) behind length(0, 1)", y -> y.length(0, 3), 1, "a\u0000\u0000");
+        });
+        due.test("Promise 15", "UNKNOWN",
+                () -> due.builders(BuilderTest::alike, "length(b, 4)", 3, (x, b) -> x.length(b, 4)));
+        due.test("Promise 15", "COUNT", () -> {
+            leaves(small(), "length(0, 0)", x -> x.length(0, 0), 3, "");
+            due.refused(BuilderTest::small, "length(0, -1)", COUNT, x -> x.length(0, -1));
+            due.refused(BuilderTest::small, "length(0, MIN)", COUNT, x -> x.length(0, MIN));
+        });
+        due.test("Promise 15", "FULL", () -> {
+            leaves(small(), "length(0, 200)", x -> x.length(0, 200), 3, "abc" + "\u0000".repeat(197));
+            due.refused(BuilderTest::small, "length(0, 201)", FULL, x -> x.length(0, 201));
+            due.refused(BuilderTest::small, "length(0, MAX)", FULL, x -> x.length(0, MAX));
+            due.is("length(0, 200) at 200", holding("x".repeat(200)).length(0, 200), 200);
+            due.refused(() -> holding("x".repeat(200)), "length(0, 201) at 200", FULL, x -> x.length(0, 201));
+        });
     }
 
     private static void at() {
-        RowsOfSigns x = with("ab\u00ff", "");
-        due.is("16 at(0, 0)", x.at(0, 0), 'a');
-        due.is("16 at(0, 2)", x.at(0, 2), 255);
-        due.refused(x, "16 at(0, 3)", PLACE, () -> x.at(0, 3));
-        due.refused(x, "16 at(0, -1)", PLACE, () -> x.at(0, -1));
-        due.refused(x, "16 at(1, 0), empty", PLACE, () -> x.at(1, 0));
-        due.refused(x, "16 at(4, -1)", UNKNOWN, () -> x.at(4, -1));
-        due.refused(x, "16 at(-1, 0)", UNKNOWN, () -> x.at(-1, 0));
-        x.length(0, 1);
-        due.refused(x, "16 at(0, 1), dropped", PLACE, () -> x.at(0, 1));
+        due.test("Promise 16", "The SIGN at a place", () -> {
+            due.is("at(0, 0)", small().at(0, 0), 'a');
+            due.is("at(0, 1)", small().at(0, 1), 'b');
+            due.is("at(0, 2)", small().at(0, 2), 'c');
+            due.is("at(0, 199) of 200", holding("x".repeat(199) + "\u00ff").at(0, 199), 255);
+            due.is("at(0, 0) of SIGN 0", holding("\u0000").at(0, 0), 0);
+        });
+        due.test("Promise 16", "UNKNOWN",
+                () -> due.builders(BuilderTest::alike, "at(b, 1)", 'b', (x, b) -> x.at(b, 1)));
+        due.test("Promise 16", "PLACE: there is none", () -> {
+            due.bounds(BuilderTest::small, "at(0, at)", 0, 'a', 2, 'c', PLACE, (x, at) -> x.at(0, at));
+            due.refused(BuilderTest::small, "at(1, 0), empty", PLACE, x -> x.at(1, 0));
+            due.refused(() -> holding("x".repeat(200)), "at(0, 200) of 200", PLACE, x -> x.at(0, 200));
+            RowsOfSigns x = small();
+            x.length(0, 2);
+            due.is("at(0, 2), dropped", x.at(0, 2), PLACE);
+        });
     }
 
     private static void size() {
-        RowsOfSigns x = with("abc", "");
-        due.is("17 size(0)", x.size(0), 3);
-        due.is("17 size(1)", x.size(1), 0);
-        due.refused(x, "17 size(4)", UNKNOWN, () -> x.size(4));
-        due.refused(x, "17 size(-1)", UNKNOWN, () -> x.size(-1));
+        due.test("Promise 17", "How many SIGNS there are", () -> {
+            due.is("size(0)", small().size(0), 3);
+            due.is("size(1), empty", small().size(1), 0);
+            due.is("size(0) of 200", holding("x".repeat(200)).size(0), 200);
+        });
+        due.test("Promise 17", "UNKNOWN", () -> due.builders(BuilderTest::alike, "size(b)", 3, (x, b) -> x.size(b)));
+    }
+
+    /** Builder 0 is ababa; text 0 is ab, text 1 is empty, text 2 is longer, text 3 is aba, text 4 is missing. */
+    private static RowsOfSigns sought() {
+        return Rows.with("ababa", "ab", "", "ababab", "aba");
     }
 
     private static void first() {
-        RowsOfSigns x = with("ababab", "ab");
-        Due.write(x, 1, "");
-        Due.write(x, 2, "abababa");
-        Due.write(x, 3, "bb");
-        due.is("18 first(0, 0, 0)", x.first(0, 0, 0), 0);
-        due.is("18 first(0, 0, 1)", x.first(0, 0, 1), 2);
-        due.is("18 first(0, 0, 4)", x.first(0, 0, 4), 4);
-        due.is("18 first(0, 0, 5)", x.first(0, 0, 5), -1);
-        due.is("18 first(0, 0, MIN)", x.first(0, 0, MIN), 0);
-        due.is("18 first(0, 0, MAX)", x.first(0, 0, MAX), -1);
-        due.is("18 first(0, 1, 3), empty", x.first(0, 1, 3), 3);
-        due.is("18 first(0, 1, -3), empty", x.first(0, 1, -3), 0);
-        due.is("18 first(0, 1, 6), empty", x.first(0, 1, 6), 6);
-        due.is("18 first(0, 1, 99), empty", x.first(0, 1, 99), 6);
-        due.is("18 first(1, 1, 9), both empty", x.first(1, 1, 9), 0);
-        due.is("18 first(0, 2, 0), longer", x.first(0, 2, 0), -1);
-        due.is("18 first(0, 3, 0), not there", x.first(0, 3, 0), -1);
-        due.refused(x, "18 first(0, 4, 0), missing", MISSING, () -> x.first(0, 4, 0));
-        due.refused(x, "18 first(4, 4, 0)", UNKNOWN, () -> x.first(4, 4, 0));
-        due.refused(x, "18 first(0, 8, 0)", UNKNOWN, () -> x.first(0, 8, 0));
+        due.test("Promise 18", "THE FIRST of a TEXT in a BUILDER", () -> {
+            due.is("first(0, 0, 0)", sought().first(0, 0, 0), 0);
+            due.is("first(0, 0, 1)", sought().first(0, 0, 1), 2);
+            due.is("first(0, 0, 2)", sought().first(0, 0, 2), 2);
+            due.is("first(0, 3, 1), overlapping", sought().first(0, 3, 1), 2);
+            due.is("first(0, 0, -1)", sought().first(0, 0, -1), 0);
+            due.is("first(0, 0, MIN)", sought().first(0, 0, MIN), 0);
+            due.is("first(0, 1, 5), empty", sought().first(0, 1, 5), 5);
+            due.is("first(0, 1, 6), empty", sought().first(0, 1, 6), 5);
+            due.is("first(0, 1, MAX), empty", sought().first(0, 1, MAX), 5);
+            due.is("first(1, 1, 0), both empty", sought().first(1, 1, 0), 0);
+        });
+        due.test("Promise 18", "NONE", () -> {
+            due.is("first(0, 0, 3)", sought().first(0, 0, 3), NONE);
+            due.is("first(0, 0, MAX)", sought().first(0, 0, MAX), NONE);
+            due.is("first(0, 2, 0), longer", sought().first(0, 2, 0), NONE);
+            due.is("first(1, 0, 0), empty", sought().first(1, 0, 0), NONE);
+        });
+        due.test("Promise 18", "UNKNOWN", () -> {
+            due.builders(BuilderTest::alike, "first(b, 0, 0)", 0, (x, b) -> x.first(b, 0, 0));
+            due.texts(BuilderTest::alike, "first(0, t, 0)", 0, (x, t) -> x.first(0, t, 0));
+        });
+        due.test("Promise 18", "MISSING", () -> {
+            due.is("first(0, 1, 3), empty", sought().first(0, 1, 3), 3);
+            due.refused(BuilderTest::sought, "first(0, 4, 3)", MISSING, x -> x.first(0, 4, 3));
+            due.refused(BuilderTest::small, "first(0, 3, 0), forgotten", MISSING, x -> x.first(0, 3, 0));
+        });
     }
 
     private static void last() {
-        RowsOfSigns x = with("ababab", "ab");
-        Due.write(x, 1, "");
-        Due.write(x, 2, "abababa");
-        due.is("19 last(0, 0, 6)", x.last(0, 0, 6), 4);
-        due.is("19 last(0, 0, 4)", x.last(0, 0, 4), 4);
-        due.is("19 last(0, 0, 3)", x.last(0, 0, 3), 2);
-        due.is("19 last(0, 0, 0)", x.last(0, 0, 0), 0);
-        due.is("19 last(0, 0, -1)", x.last(0, 0, -1), -1);
-        due.is("19 last(0, 0, MIN)", x.last(0, 0, MIN), -1);
-        due.is("19 last(0, 0, MAX)", x.last(0, 0, MAX), 4);
-        due.is("19 last(0, 1, 99), empty", x.last(0, 1, 99), 6);
-        due.is("19 last(0, 1, 3), empty", x.last(0, 1, 3), 3);
-        due.is("19 last(0, 1, -1), empty", x.last(0, 1, -1), -1);
-        due.is("19 last(0, 2, 9), longer", x.last(0, 2, 9), -1);
-        due.refused(x, "19 last(0, 4, 0), missing", MISSING, () -> x.last(0, 4, 0));
-        due.refused(x, "19 last(-1, 4, 0)", UNKNOWN, () -> x.last(-1, 4, 0));
-        due.refused(x, "19 last(0, -1, 0)", UNKNOWN, () -> x.last(0, -1, 0));
+        due.test("Promise 19", "THE LAST of a TEXT in a BUILDER", () -> {
+            due.is("last(0, 0, 5)", sought().last(0, 0, 5), 2);
+            due.is("last(0, 0, 2)", sought().last(0, 0, 2), 2);
+            due.is("last(0, 0, 1)", sought().last(0, 0, 1), 0);
+            due.is("last(0, 0, 0)", sought().last(0, 0, 0), 0);
+            due.is("last(0, 3, 9), overlapping", sought().last(0, 3, 9), 2);
+            due.is("last(0, 0, MAX)", sought().last(0, 0, MAX), 2);
+            due.is("last(0, 1, 5), empty", sought().last(0, 1, 5), 5);
+            due.is("last(0, 1, 6), empty", sought().last(0, 1, 6), 5);
+            due.is("last(0, 1, 0), empty", sought().last(0, 1, 0), 0);
+            due.is("last(1, 1, 0), both empty", sought().last(1, 1, 0), 0);
+        });
+        due.test("Promise 19", "NONE", () -> {
+            due.is("last(0, 0, -1)", sought().last(0, 0, -1), NONE);
+            due.is("last(0, 0, MIN)", sought().last(0, 0, MIN), NONE);
+            due.is("last(0, 1, -1), empty", sought().last(0, 1, -1), NONE);
+            due.is("last(0, 2, 9), longer", sought().last(0, 2, 9), NONE);
+            due.is("last(1, 0, 9), empty", sought().last(1, 0, 9), NONE);
+        });
+        due.test("Promise 19", "UNKNOWN", () -> {
+            due.builders(BuilderTest::alike, "last(b, 0, 9)", 0, (x, b) -> x.last(b, 0, 9));
+            due.texts(BuilderTest::alike, "last(0, t, 9)", 0, (x, t) -> x.last(0, t, 9));
+        });
+        due.test("Promise 19", "MISSING", () -> {
+            due.is("last(0, 1, 3), empty", sought().last(0, 1, 3), 3);
+            due.refused(BuilderTest::sought, "last(0, 4, 3)", MISSING, x -> x.last(0, 4, 3));
+            due.refused(BuilderTest::small, "last(0, 3, 0), forgotten", MISSING, x -> x.last(0, 3, 0));
+        });
+    }
+
+    private static void taken(int from, int to, int t, String row) {
+        RowsOfSigns x = small();
+        String call = "take(0, " + from + ", " + to + ", " + t + ")";
+        due.is(call, x.take(0, from, to, t), row.length());
+        due.is(call, Rows.text(x, t), row);
+        due.is(call + ", the builder", Rows.builder(x, 0), "abc");
     }
 
     private static void take() {
-        RowsOfSigns x = with("abcdef", "old");
-        due.is("20 take(0, 1, 4, 0)", x.take(0, 1, 4, 0), 3);
-        due.is("20 take", Due.text(x, 0), "bcd");
-        due.is("20 the builder stays", Due.builder(x, 0), "abcdef");
-        due.is("20 take(0, 6, 6, 7)", x.take(0, 6, 6, 7), 0);
-        due.is("20 take, empty", Due.text(x, 7), "");
-        x.put(0, 1, 'X');
-        due.is("20 the text stays", Due.text(x, 0), "bcd");
-        due.refused(x, "20 take(0, 0, 7, 0)", PLACE, () -> x.take(0, 0, 7, 0));
-        due.refused(x, "20 take(0, -1, 3, 0)", PLACE, () -> x.take(0, -1, 3, 0));
-        due.refused(x, "20 take(0, 3, 2, 1)", PLACE, () -> x.take(0, 3, 2, 1));
-        due.is("20 missing still", x.textSize(1), -1);
-        due.refused(x, "20 take(4, -1, 3, 0)", UNKNOWN, () -> x.take(4, -1, 3, 0));
-        due.refused(x, "20 take(0, -1, 3, 8)", UNKNOWN, () -> x.take(0, -1, 3, 8));
-        due.is("20 take(0, 0, 6, 0)", x.take(0, 0, 6, 0), 6);
+        due.test("Promise 20", "A TEXT becomes the SIGNS of a BUILDER FROM one place TO another one: "
+                + "how many these are", () -> {
+            taken(0, 3, 0, "abc");
+            taken(1, 3, 0, "bc");
+            taken(0, 2, 1, "ab");
+            taken(1, 2, 2, "b");
+            taken(1, 1, 2, "");
+            RowsOfSigns x = holding("x".repeat(200));
+            due.is("take(0, 0, 200, 0)", x.take(0, 0, 200, 0), 200);
+            due.is("textSize(0)", x.textSize(0), 200);
+            x.put(0, 0, 'y');
+            due.is("signAt(0, 0), the builder is another one", x.signAt(0, 0), 'x');
+        });
+        due.test("Promise 20", "UNKNOWN", () -> {
+            due.builders(BuilderTest::alike, "take(b, 0, 2, 5)", 2, (x, b) -> x.take(b, 0, 2, 5));
+            due.texts(BuilderTest::alike, "take(0, 0, 2, t)", 2, (x, t) -> x.take(0, 0, 2, t));
+        });
+        due.test("Promise 20", "PLACE: from below 0", () -> due.bounds(BuilderTest::small, "take(0, from, 3, 0)",
+                0, 3, 3, 0, PLACE, (x, from) -> x.take(0, from, 3, 0)));
+        due.test("Promise 20", "to above how many SIGNS there are", () -> {
+            due.bounds(BuilderTest::small, "take(0, 0, to, 0)", 0, 0, 3, 3, PLACE, (x, to) -> x.take(0, 0, to, 0));
+            due.bounds(BuilderTest::small, "take(1, 0, to, 0), empty", 0, 0, 0, 0, PLACE,
+                    (x, to) -> x.take(1, 0, to, 0));
+            due.refused(BuilderTest::small, "take(0, 4, 4, 0)", PLACE, x -> x.take(0, 4, 4, 0));
+        });
+        due.test("Promise 20", "from above to", () -> {
+            taken(2, 2, 0, "");
+            due.refused(BuilderTest::small, "take(0, 2, 1, 0)", PLACE, x -> x.take(0, 2, 1, 0));
+            due.refused(BuilderTest::small, "take(0, 2, 1, 2), missing", PLACE, x -> x.take(0, 2, 1, 2));
+            due.refused(BuilderTest::small, "take(0, MAX, MIN, 0)", PLACE, x -> x.take(0, MAX, MIN, 0));
+        });
+    }
+
+    private static void ordered(String one, String other, int want) {
+        RowsOfSigns x = holding(one);
+        Rows.build(x, 1, other);
+        due.is("ahead(0, 1) of " + Rows.shown(one) + " and " + Rows.shown(other), x.ahead(0, 1), want);
+        due.is("ahead(1, 0) of " + Rows.shown(one) + " and " + Rows.shown(other), x.ahead(1, 0), -want);
     }
 
     private static void ahead() {
-        RowsOfSigns x = new RowsOfSigns();
-        Due.build(x, 0, "abc");
-        Due.build(x, 1, "abz");
-        Due.build(x, 2, "ab");
-        due.is("21 ahead(0, 1)", x.ahead(0, 1), -1);
-        due.is("21 ahead(1, 0)", x.ahead(1, 0), 1);
-        due.is("21 ahead(0, 2)", x.ahead(0, 2), 1);
-        due.is("21 ahead(2, 1)", x.ahead(2, 1), -1);
-        due.is("21 ahead(3, 2)", x.ahead(3, 2), -1);
-        due.is("21 ahead(0, 0)", x.ahead(0, 0), 0);
-        Due.build(x, 3, "\u00ff");
-        due.is("21 ahead(3, 0)", x.ahead(3, 0), 1);
-        Due.build(x, 1, "abc");
-        due.is("21 ahead(0, 1), the same", x.ahead(0, 1), 0);
-        due.refused(x, "21 ahead(0, 4)", UNKNOWN, () -> x.ahead(0, 4));
-        due.refused(x, "21 ahead(-1, 0)", UNKNOWN, () -> x.ahead(-1, 0));
-    }
-
-    private static void objectsAreApart() {
-        RowsOfSigns x = with("abc", "t");
-        RowsOfSigns y = new RowsOfSigns();
-        long before = y.digest();
-        x.text(0, 1);
-        x.split(0, 't', -1);
-        x.cutter(0, 0, 0, true);
-        due.is("1 another object", y.digest(), before);
+        due.test("Promise 21", "1, 0, -1: the ORDER of the rows of two BUILDERS is above 0, is 0, is below 0", () -> {
+            ordered("", "", 0);
+            ordered("abc", "abc", 0);
+            ordered("abb", "abc", -1);
+            ordered("ab", "abc", -1);
+            ordered("", "a", -1);
+            ordered("\u0000", "\u00ff", -1);
+            ordered("ab", "b", -1);
+            ordered("x".repeat(199) + "a", "x".repeat(199) + "z", -1);
+            due.is("ahead(0, 0)", small().ahead(0, 0), 0);
+        });
+        due.test("Promise 21", "UNKNOWN", () -> {
+            due.builders(BuilderTest::alike, "ahead(b, 0)", 0, (x, b) -> x.ahead(b, 0));
+            due.builders(BuilderTest::alike, "ahead(0, c)", 0, (x, c) -> x.ahead(0, c));
+        });
     }
 }

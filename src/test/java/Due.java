@@ -1,95 +1,119 @@
-/** Counts the answers that are not as due, and helps to make and to read rows. */
+/** Counts the answers that are not as due, and tells of which sentence of the document they are. */
 final class Due {
-    interface Call {
-        long answer();
+    interface Test {
+        void run();
     }
 
+    interface Setup {
+        RowsOfSigns made();
+    }
+
+    interface Call {
+        long on(RowsOfSigns x);
+    }
+
+    interface CallWith {
+        long on(RowsOfSigns x, int v);
+    }
+
+    // Not the constants of the class: they are looked at, too.
+    static final int UNKNOWN = -1001, OUTSIDE = -1002;
+
+    private final Sentences sentences;
+    private String sentence = "";
+    private int tests = 0;
     private int asked = 0;
     private int wrong = 0;
+
+    /** The sections of the document of whose every sentence there has to be a test. */
+    Due(String... sections) {
+        sentences = new Sentences(sections);
+    }
+
+    static Due ofPromises(int first, int last) {
+        String[] sections = new String[last - first + 1];
+        for (int i = 0; i < sections.length; i++) {
+            sections[i] = "Promise " + (first + i);
+        }
+        return new Due(sections);
+    }
+
+    /** A test of one sentence of the document, or of a part of one. */
+    void test(String section, String said, Test test) {
+        sentences.tested(section, said);
+        sentence = section + ", \"" + said + "\": ";
+        tests++;
+        try {
+            test.run();
+        } catch (RuntimeException e) {
+            fault("a call, or the test, threw " + e);
+        }
+        sentence = "";
+    }
 
     void is(String call, long got, long want) {
         asked++;
         if (got != want) {
-            wrong++;
-            System.out.println(call + " answered " + got + ", due is " + want);
+            fault(call + " answered " + got + ", due is " + want);
         }
     }
 
     void is(String call, String got, String want) {
         asked++;
         if (!want.equals(got)) {
-            wrong++;
-            System.out.println(call + " left " + shown(got) + ", due is " + shown(want));
+            fault(call + " left " + Rows.shown(got) + ", due is " + Rows.shown(want));
         }
     }
 
-    /** The call answers this refusal and changes nothing. */
-    void refused(RowsOfSigns x, String call, long want, Call made) {
-        long before = x.digest();
-        is(call, made.answer(), want);
-        is(call + ", digest() behind it", x.digest(), before);
+    private void fault(String told) {
+        wrong++;
+        System.out.println(sentence + told);
+    }
+
+    /** The call answers this refusal and changes nothing: its object stays like another one that had no such call. */
+    void refused(Setup setup, String call, long want, Call made) {
+        RowsOfSigns x = setup.made();
+        RowsOfSigns other = setup.made();
+        is(call, made.on(x), want);
+        is(call + ", digest() behind it", x.digest(), other.digest());
+        for (int c = 0; c < 2; c++) {
+            is(call + ", more(" + c + ") behind it", x.more(c), other.more(c));
+            is(call + ", the tokens of cutter " + c + " behind it", Rows.tokens(x, c), Rows.tokens(other, c));
+        }
+    }
+
+    /** The numbers from low to high are taken, those below and above are refused. */
+    void bounds(Setup setup, String call, int low, long wantLow, int high, long wantHigh, long refusal, CallWith made) {
+        is(call + " with " + low, made.on(setup.made(), low), wantLow);
+        is(call + " with " + high, made.on(setup.made(), high), wantHigh);
+        for (int v : new int[] {low - 1, high + 1, Integer.MIN_VALUE, Integer.MAX_VALUE}) {
+            refused(setup, call + " with " + v, refusal, x -> made.on(x, v));
+        }
+    }
+
+    void builders(Setup setup, String call, long want, CallWith made) {
+        bounds(setup, call, 0, want, 3, want, UNKNOWN, made);
+    }
+
+    void texts(Setup setup, String call, long want, CallWith made) {
+        bounds(setup, call, 0, want, 7, want, UNKNOWN, made);
+    }
+
+    void cutters(Setup setup, String call, long want, CallWith made) {
+        bounds(setup, call, 0, want, 1, want, UNKNOWN, made);
+    }
+
+    void signs(Setup setup, String call, long wantLow, long wantHigh, CallWith made) {
+        bounds(setup, call, 0, wantLow, 255, wantHigh, OUTSIDE, made);
     }
 
     void end() {
-        System.out.println(asked + " answers looked at, " + wrong + " wrong");
+        for (String fault : sentences.faults()) {
+            fault(fault);
+        }
+        System.out.println(tests + " tests of sentences, " + asked + " answers looked at, " + wrong + " wrong");
         if (wrong != 0 || asked == 0) {
             System.exit(1);
         }
-    }
-
-    /** A builder becomes this row. */
-    static void build(RowsOfSigns x, int b, String row) {
-        x.length(b, 0);
-        for (int i = 0; i < row.length(); i++) {
-            x.sign(b, row.charAt(i));
-        }
-    }
-
-    /** A text becomes this row, and builder 3 is empty then. */
-    static void write(RowsOfSigns x, int t, String row) {
-        build(x, 3, row);
-        x.take(3, 0, row.length(), t);
-        x.length(3, 0);
-    }
-
-    static String builder(RowsOfSigns x, int b) {
-        StringBuilder row = new StringBuilder();
-        for (int i = 0; i < x.size(b); i++) {
-            row.append((char) x.at(b, i));
-        }
-        return row.toString();
-    }
-
-    static String text(RowsOfSigns x, int t) {
-        if (x.textSize(t) == RowsOfSigns.NONE) {
-            return "(missing)";
-        }
-        StringBuilder row = new StringBuilder();
-        for (int i = 0; i < x.textSize(t); i++) {
-            row.append((char) x.signAt(t, i));
-        }
-        return row.toString();
-    }
-
-    /** All parts, each between bars; text 7 is used for it. */
-    static String parts(RowsOfSigns x) {
-        StringBuilder row = new StringBuilder();
-        for (int k = 0; k < x.parts(); k++) {
-            x.partTo(k, 7);
-            row.append('|').append(text(x, 7));
-        }
-        return row.append('|').toString();
-    }
-
-    private static String shown(String row) {
-        StringBuilder shown = new StringBuilder("\"");
-        for (char sign : row.toCharArray()) {
-            if (sign > 32 && sign < 127) {
-                shown.append(sign);
-            } else {
-                shown.append('<').append((int) sign).append('>');
-            }
-        }
-        return shown.append('"').toString();
     }
 }

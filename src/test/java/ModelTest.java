@@ -6,6 +6,7 @@ import java.util.Random;
 /** Long runs of calls, drawn by fixed seeds, answered by the class and by the model alike. */
 public final class ModelTest {
     private static final int RUNS = 1500;
+    // Each has a digest() behind it, and an object is promised for 512 calls.
     private static final int CALLS = 256;
 
     /** A call's name, then what each of its arguments is; a call that stands twice is drawn twice as often. */
@@ -63,9 +64,11 @@ public final class ModelTest {
             calls.append(shape[0]).append(java.util.Arrays.toString(arguments)).append(' ');
             long got = ((Number) ours.get(shape[0]).invoke(x, arguments)).longValue();
             long want = ((Number) models.get(shape[0]).invoke(model, arguments)).longValue();
-            boolean same = got == want && x.digest() == model.digest();
+            long gotDigest = x.digest();
+            long wantDigest = model.digest();
+            boolean same = got == want && gotDigest == wantDigest;
             due.is(same ? "" : "the last of " + calls, got, want);
-            due.is(same ? "" : "digest() behind " + calls, x.digest(), model.digest());
+            due.is(same ? "" : "digest() behind " + calls, gotDigest, wantDigest);
             if (!same) {
                 return;
             }

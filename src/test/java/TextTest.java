@@ -1,9 +1,9 @@
-/** Promises 22 to 36: texts. */
+/** Promises 22 to 36: texts; a test of each sentence. */
 public final class TextTest {
-    private static final Due due = new Due();
+    private static final Due due = Due.ofPromises(22, 36);
     private static final int MIN = Integer.MIN_VALUE;
     private static final int MAX = Integer.MAX_VALUE;
-    private static final int UNKNOWN = -1001, OUTSIDE = -1002, MISSING = -1003, COUNT = -1004, PLACE = -1005, FULL = -1007;
+    private static final int NONE = -1, UNKNOWN = -1001, MISSING = -1003, COUNT = -1004, PLACE = -1005, FULL = -1007;
 
     public static void main(String[] args) {
         forget();
@@ -25,289 +25,531 @@ public final class TextTest {
     }
 
     /** The texts from 0 on; those behind them are missing. */
-    private static RowsOfSigns with(String... rows) {
-        RowsOfSigns x = new RowsOfSigns();
-        for (int t = 0; t < rows.length; t++) {
-            Due.write(x, t, rows[t]);
-        }
+    private static RowsOfSigns with(String... texts) {
+        return Rows.with("", texts);
+    }
+
+    /** Text 0 is abca, text 1 is empty, text 2 is missing, text 3 was forgotten, text 4 is ab. */
+    private static RowsOfSigns small() {
+        RowsOfSigns x = with("abca", "", null, "gone", "ab");
+        x.forget(3);
         return x;
     }
 
+    private static RowsOfSigns alike() {
+        return Rows.alike("abc");
+    }
+
+    private static RowsOfSigns alike200() {
+        return Rows.alike("x".repeat(200));
+    }
+
+    /** An empty text is taken, one that is missing or was forgotten is not. */
+    private static void missing(String call, long wantOfEmpty, Due.CallWith made) {
+        due.is(call + " of an empty text", made.on(small(), 1), wantOfEmpty);
+        due.refused(TextTest::small, call + " of a missing text", MISSING, x -> made.on(x, 2));
+        due.refused(TextTest::small, call + " of a forgotten text", MISSING, x -> made.on(x, 3));
+    }
+
+    /** What the call answers, and the text that it makes. */
+    private static void makes(RowsOfSigns x, String call, Due.Call made, int into, String row) {
+        due.is(call, made.on(x), row.length());
+        due.is(call, Rows.text(x, into), row);
+    }
+
     private static void forget() {
-        RowsOfSigns x = with("a", "");
-        due.is("22 forget(0)", x.forget(0), 1);
-        due.is("22 forget(0) again", x.forget(0), 0);
-        due.is("22 forget(1), empty", x.forget(1), 1);
-        due.is("22 forget(7), never made", x.forget(7), 0);
-        due.is("22 forgotten", x.textSize(0), -1);
-        due.is("22 forgotten, empty", x.textSize(1), -1);
-        due.is("22 forgotten as the four", x.text(0, 0), 4);
-        due.refused(x, "22 forget(8)", UNKNOWN, () -> x.forget(8));
-        due.refused(x, "22 forget(-1)", UNKNOWN, () -> x.forget(-1));
+        due.test("Promise 22", "A TEXT is MISSING from now on: 1; 0: it was", () -> {
+            RowsOfSigns x = small();
+            due.is("forget(0)", x.forget(0), 1);
+            due.is("textSize(0)", x.textSize(0), NONE);
+            due.is("forget(0) again", x.forget(0), 0);
+            due.is("textSize(0) again", x.textSize(0), NONE);
+            due.is("forget(1), empty", x.forget(1), 1);
+            due.is("textSize(1)", x.textSize(1), NONE);
+            due.is("forget(2), missing at first", x.forget(2), 0);
+            due.is("textSize(4), another one", x.textSize(4), 2);
+            makes(x, "trim(4, 0), it is a row again", y -> y.trim(4, 0), 0, "ab");
+            due.is("forget(0), it was a row again", x.forget(0), 1);
+        });
+        due.test("Promise 22", "UNKNOWN", () -> due.texts(TextTest::alike, "forget(t)", 1, (x, t) -> x.forget(t)));
     }
 
     private static void textSize() {
-        RowsOfSigns x = with("abc", "", "x".repeat(200));
-        due.is("23 textSize(0)", x.textSize(0), 3);
-        due.is("23 textSize(1)", x.textSize(1), 0);
-        due.is("23 textSize(2)", x.textSize(2), 200);
-        due.is("23 textSize(3)", x.textSize(3), -1);
-        due.refused(x, "23 textSize(8)", UNKNOWN, () -> x.textSize(8));
-        due.refused(x, "23 textSize(-1)", UNKNOWN, () -> x.textSize(-1));
+        due.test("Promise 23", "How many SIGNS a TEXT has", () -> {
+            due.is("textSize(0)", small().textSize(0), 4);
+            due.is("textSize(1), empty", small().textSize(1), 0);
+            due.is("textSize(0) of 200", with("x".repeat(200)).textSize(0), 200);
+        });
+        due.test("Promise 23", "NONE: it is MISSING", () -> {
+            due.is("textSize(2)", small().textSize(2), NONE);
+            due.is("textSize(3), forgotten", small().textSize(3), NONE);
+        });
+        due.test("Promise 23", "UNKNOWN",
+                () -> due.texts(TextTest::alike, "textSize(t)", 3, (x, t) -> x.textSize(t)));
     }
 
     private static void signAt() {
-        RowsOfSigns x = with("ab\u00ff", "");
-        due.is("24 signAt(0, 0)", x.signAt(0, 0), 'a');
-        due.is("24 signAt(0, 2)", x.signAt(0, 2), 255);
-        due.refused(x, "24 signAt(0, 3)", PLACE, () -> x.signAt(0, 3));
-        due.refused(x, "24 signAt(0, -1)", PLACE, () -> x.signAt(0, -1));
-        due.refused(x, "24 signAt(1, 0)", PLACE, () -> x.signAt(1, 0));
-        due.refused(x, "24 signAt(2, -1)", MISSING, () -> x.signAt(2, -1));
-        due.refused(x, "24 signAt(8, -1)", UNKNOWN, () -> x.signAt(8, -1));
-        x.sub(0, 0, 1, 0);
-        due.refused(x, "24 signAt(0, 1) of the new text", PLACE, () -> x.signAt(0, 1));
+        due.test("Promise 24", "The SIGN at a place", () -> {
+            due.is("signAt(0, 0)", small().signAt(0, 0), 'a');
+            due.is("signAt(0, 1)", small().signAt(0, 1), 'b');
+            due.is("signAt(0, 3)", small().signAt(0, 3), 'a');
+            due.is("signAt(0, 0) of SIGN 0", with("\u0000\u00ff").signAt(0, 0), 0);
+            due.is("signAt(0, 1) of SIGN 255", with("\u0000\u00ff").signAt(0, 1), 255);
+        });
+        due.test("Promise 24", "UNKNOWN",
+                () -> due.texts(TextTest::alike, "signAt(t, 2)", 'c', (x, t) -> x.signAt(t, 2)));
+        due.test("Promise 24", "MISSING", () -> missing("signAt(t, 0)", PLACE, (x, t) -> x.signAt(t, 0)));
+        due.test("Promise 24", "PLACE: there is none", () -> {
+            due.bounds(TextTest::small, "signAt(0, at)", 0, 'a', 3, 'a', PLACE, (x, at) -> x.signAt(0, at));
+            due.refused(TextTest::small, "signAt(1, 0), empty", PLACE, x -> x.signAt(1, 0));
+            due.bounds(() -> with("x".repeat(200)), "signAt(0, at) of 200", 0, 'x', 199, 'x', PLACE,
+                    (x, at) -> x.signAt(0, at));
+            RowsOfSigns x = small();
+            x.trim(4, 0);
+            due.is("signAt(0, 2), the row before had one", x.signAt(0, 2), PLACE);
+        });
     }
 
     private static void firstSign() {
-        RowsOfSigns x = with("abca\u0000", "");
-        due.is("25 firstSign(0, a, 0)", x.firstSign(0, 'a', 0), 0);
-        due.is("25 firstSign(0, a, 1)", x.firstSign(0, 'a', 1), 3);
-        due.is("25 firstSign(0, a, 3)", x.firstSign(0, 'a', 3), 3);
-        due.is("25 firstSign(0, a, 4)", x.firstSign(0, 'a', 4), -1);
-        due.is("25 firstSign(0, a, MIN)", x.firstSign(0, 'a', MIN), 0);
-        due.is("25 firstSign(0, a, MAX)", x.firstSign(0, 'a', MAX), -1);
-        due.is("25 firstSign(0, 0, 0)", x.firstSign(0, 0, 0), 4);
-        due.is("25 firstSign(0, 255, 0)", x.firstSign(0, 255, 0), -1);
-        due.is("25 firstSign(1, a, 0)", x.firstSign(1, 'a', 0), -1);
-        due.refused(x, "25 firstSign(2, a, 0)", MISSING, () -> x.firstSign(2, 'a', 0));
-        due.refused(x, "25 firstSign(2, 256, 0)", OUTSIDE, () -> x.firstSign(2, 256, 0));
-        due.refused(x, "25 firstSign(0, -1, 0)", OUTSIDE, () -> x.firstSign(0, -1, 0));
-        due.refused(x, "25 firstSign(8, -1, 0)", UNKNOWN, () -> x.firstSign(8, -1, 0));
+        due.test("Promise 25", "THE FIRST of a SIGN in a TEXT", () -> {
+            due.is("firstSign(0, a, 0)", small().firstSign(0, 'a', 0), 0);
+            due.is("firstSign(0, a, -1)", small().firstSign(0, 'a', -1), 0);
+            due.is("firstSign(0, a, MIN)", small().firstSign(0, 'a', MIN), 0);
+            due.is("firstSign(0, a, 1)", small().firstSign(0, 'a', 1), 3);
+            due.is("firstSign(0, a, 3)", small().firstSign(0, 'a', 3), 3);
+            due.is("firstSign(0, 255, 0)", with("a\u00ff\u0000").firstSign(0, 255, 0), 1);
+            due.is("firstSign(0, 0, 0)", with("a\u00ff\u0000").firstSign(0, 0, 0), 2);
+        });
+        due.test("Promise 25", "NONE", () -> {
+            due.is("firstSign(0, a, 4)", small().firstSign(0, 'a', 4), NONE);
+            due.is("firstSign(0, a, MAX)", small().firstSign(0, 'a', MAX), NONE);
+            due.is("firstSign(0, b, 2)", small().firstSign(0, 'b', 2), NONE);
+            due.is("firstSign(0, z, 0)", small().firstSign(0, 'z', 0), NONE);
+            due.is("firstSign(1, a, 0), empty", small().firstSign(1, 'a', 0), NONE);
+            RowsOfSigns x = small();
+            x.trim(4, 0);
+            due.is("firstSign(0, c, 0), the row before had it", x.firstSign(0, 'c', 0), NONE);
+        });
+        due.test("Promise 25", "UNKNOWN",
+                () -> due.texts(TextTest::alike, "firstSign(t, b, 0)", 1, (x, t) -> x.firstSign(t, 'b', 0)));
+        due.test("Promise 25", "OUTSIDE: no SIGN", () -> due.signs(() -> with("x\u0000\u00ff"),
+                "firstSign(0, s, 0)", 1, 2, (x, s) -> x.firstSign(0, s, 0)));
+        due.test("Promise 25", "MISSING",
+                () -> missing("firstSign(t, a, 0)", NONE, (x, t) -> x.firstSign(t, 'a', 0)));
     }
 
     private static void lastSign() {
-        RowsOfSigns x = with("abca\u0000", "");
-        due.is("26 lastSign(0, a, 4)", x.lastSign(0, 'a', 4), 3);
-        due.is("26 lastSign(0, a, 3)", x.lastSign(0, 'a', 3), 3);
-        due.is("26 lastSign(0, a, 2)", x.lastSign(0, 'a', 2), 0);
-        due.is("26 lastSign(0, a, 0)", x.lastSign(0, 'a', 0), 0);
-        due.is("26 lastSign(0, a, -1)", x.lastSign(0, 'a', -1), -1);
-        due.is("26 lastSign(0, a, MIN)", x.lastSign(0, 'a', MIN), -1);
-        due.is("26 lastSign(0, a, MAX)", x.lastSign(0, 'a', MAX), 3);
-        due.is("26 lastSign(0, 0, MAX)", x.lastSign(0, 0, MAX), 4);
-        due.is("26 lastSign(1, a, 9)", x.lastSign(1, 'a', 9), -1);
-        due.refused(x, "26 lastSign(2, a, 0)", MISSING, () -> x.lastSign(2, 'a', 0));
-        due.refused(x, "26 lastSign(2, 256, 0)", OUTSIDE, () -> x.lastSign(2, 256, 0));
-        due.refused(x, "26 lastSign(0, -1, 0)", OUTSIDE, () -> x.lastSign(0, -1, 0));
-        due.refused(x, "26 lastSign(-1, -1, 0)", UNKNOWN, () -> x.lastSign(-1, -1, 0));
+        due.test("Promise 26", "THE LAST of a SIGN in a TEXT", () -> {
+            due.is("lastSign(0, a, MAX)", small().lastSign(0, 'a', MAX), 3);
+            due.is("lastSign(0, a, 4)", small().lastSign(0, 'a', 4), 3);
+            due.is("lastSign(0, a, 3)", small().lastSign(0, 'a', 3), 3);
+            due.is("lastSign(0, a, 2)", small().lastSign(0, 'a', 2), 0);
+            due.is("lastSign(0, a, 0)", small().lastSign(0, 'a', 0), 0);
+            due.is("lastSign(0, 255, 9)", with("\u0000\u00ffa").lastSign(0, 255, 9), 1);
+            due.is("lastSign(0, 0, 9)", with("\u0000\u00ffa").lastSign(0, 0, 9), 0);
+        });
+        due.test("Promise 26", "NONE", () -> {
+            due.is("lastSign(0, a, -1)", small().lastSign(0, 'a', -1), NONE);
+            due.is("lastSign(0, a, MIN)", small().lastSign(0, 'a', MIN), NONE);
+            due.is("lastSign(0, b, 0)", small().lastSign(0, 'b', 0), NONE);
+            due.is("lastSign(0, z, 9)", small().lastSign(0, 'z', 9), NONE);
+            due.is("lastSign(1, a, 9), empty", small().lastSign(1, 'a', 9), NONE);
+            RowsOfSigns x = small();
+            x.trim(4, 0);
+            due.is("lastSign(0, c, 9), the row before had it", x.lastSign(0, 'c', 9), NONE);
+        });
+        due.test("Promise 26", "UNKNOWN",
+                () -> due.texts(TextTest::alike, "lastSign(t, b, 9)", 1, (x, t) -> x.lastSign(t, 'b', 9)));
+        due.test("Promise 26", "OUTSIDE: no SIGN", () -> due.signs(() -> with("\u0000\u00ffx"),
+                "lastSign(0, s, 9)", 0, 1, (x, s) -> x.lastSign(0, s, 9)));
+        due.test("Promise 26", "MISSING",
+                () -> missing("lastSign(t, a, 9)", NONE, (x, t) -> x.lastSign(t, 'a', 9)));
+    }
+
+    /** Text 0 is ababa, text 1 is ab, text 2 is empty, text 3 is longer, text 4 is aba. */
+    private static RowsOfSigns sought() {
+        return with("ababa", "ab", "", "ababab", "aba");
     }
 
     private static void firstText() {
-        RowsOfSigns x = with("aaab", "aab", "", "b");
-        due.is("27 firstText(0, 1, 0)", x.firstText(0, 1, 0), 1);
-        due.is("27 firstText(0, 1, 1)", x.firstText(0, 1, 1), 1);
-        due.is("27 firstText(0, 1, 2)", x.firstText(0, 1, 2), -1);
-        due.is("27 firstText(0, 1, MIN)", x.firstText(0, 1, MIN), 1);
-        due.is("27 firstText(0, 1, MAX)", x.firstText(0, 1, MAX), -1);
-        due.is("27 firstText(0, 3, 3)", x.firstText(0, 3, 3), 3);
-        due.is("27 firstText(0, 2, 2)", x.firstText(0, 2, 2), 2);
-        due.is("27 firstText(0, 2, MAX)", x.firstText(0, 2, MAX), 4);
-        due.is("27 firstText(2, 2, 1)", x.firstText(2, 2, 1), 0);
-        due.is("27 firstText(0, 0, 0)", x.firstText(0, 0, 0), 0);
-        due.is("27 firstText(1, 0, 0), longer", x.firstText(1, 0, 0), -1);
-        due.refused(x, "27 firstText(0, 4, 0)", MISSING, () -> x.firstText(0, 4, 0));
-        due.refused(x, "27 firstText(4, 0, 0)", MISSING, () -> x.firstText(4, 0, 0));
-        due.refused(x, "27 firstText(4, 8, 0)", UNKNOWN, () -> x.firstText(4, 8, 0));
-        due.refused(x, "27 firstText(-1, 4, 0)", UNKNOWN, () -> x.firstText(-1, 4, 0));
+        due.test("Promise 27", "THE FIRST of the TEXT u in a TEXT", () -> {
+            due.is("firstText(0, 1, 0)", sought().firstText(0, 1, 0), 0);
+            due.is("firstText(0, 1, -1)", sought().firstText(0, 1, -1), 0);
+            due.is("firstText(0, 1, MIN)", sought().firstText(0, 1, MIN), 0);
+            due.is("firstText(0, 1, 1)", sought().firstText(0, 1, 1), 2);
+            due.is("firstText(0, 1, 2)", sought().firstText(0, 1, 2), 2);
+            due.is("firstText(0, 4, 1), overlapping", sought().firstText(0, 4, 1), 2);
+            due.is("firstText(0, 2, 5), empty", sought().firstText(0, 2, 5), 5);
+            due.is("firstText(0, 2, 6), empty", sought().firstText(0, 2, 6), 5);
+            due.is("firstText(0, 2, MAX), empty", sought().firstText(0, 2, MAX), 5);
+            due.is("firstText(0, 2, -1), empty", sought().firstText(0, 2, -1), 0);
+            due.is("firstText(2, 2, 1), both empty", sought().firstText(2, 2, 1), 0);
+            due.is("firstText(0, 0, 0)", sought().firstText(0, 0, 0), 0);
+        });
+        due.test("Promise 27", "NONE", () -> {
+            due.is("firstText(0, 1, 3)", sought().firstText(0, 1, 3), NONE);
+            due.is("firstText(0, 1, MAX)", sought().firstText(0, 1, MAX), NONE);
+            due.is("firstText(0, 3, 0), longer", sought().firstText(0, 3, 0), NONE);
+            due.is("firstText(2, 1, 0), in an empty one", sought().firstText(2, 1, 0), NONE);
+            due.is("firstText(0, 0, 1)", sought().firstText(0, 0, 1), NONE);
+        });
+        due.test("Promise 27", "UNKNOWN", () -> {
+            due.texts(TextTest::alike, "firstText(t, 0, 0)", 0, (x, t) -> x.firstText(t, 0, 0));
+            due.texts(TextTest::alike, "firstText(0, u, 0)", 0, (x, u) -> x.firstText(0, u, 0));
+        });
+        due.test("Promise 27", "MISSING: either", () -> {
+            missing("firstText(t, 0, 0)", NONE, (x, t) -> x.firstText(t, 0, 0));
+            missing("firstText(0, u, 2)", 2, (x, u) -> x.firstText(0, u, 2));
+        });
     }
 
     private static void lastText() {
-        RowsOfSigns x = with("abaab", "ab", "", "a");
-        due.is("28 lastText(0, 1, 9)", x.lastText(0, 1, 9), 3);
-        due.is("28 lastText(0, 1, 3)", x.lastText(0, 1, 3), 3);
-        due.is("28 lastText(0, 1, 2)", x.lastText(0, 1, 2), 0);
-        due.is("28 lastText(0, 1, -1)", x.lastText(0, 1, -1), -1);
-        due.is("28 lastText(0, 1, MIN)", x.lastText(0, 1, MIN), -1);
-        due.is("28 lastText(0, 1, MAX)", x.lastText(0, 1, MAX), 3);
-        due.is("28 lastText(0, 3, 4)", x.lastText(0, 3, 4), 3);
-        due.is("28 lastText(0, 2, 9)", x.lastText(0, 2, 9), 5);
-        due.is("28 lastText(0, 2, 1)", x.lastText(0, 2, 1), 1);
-        due.is("28 lastText(0, 2, -1)", x.lastText(0, 2, -1), -1);
-        due.is("28 lastText(1, 0, 9), longer", x.lastText(1, 0, 9), -1);
-        due.refused(x, "28 lastText(0, 4, 0)", MISSING, () -> x.lastText(0, 4, 0));
-        due.refused(x, "28 lastText(4, 0, 0)", MISSING, () -> x.lastText(4, 0, 0));
-        due.refused(x, "28 lastText(8, 4, 0)", UNKNOWN, () -> x.lastText(8, 4, 0));
-        due.refused(x, "28 lastText(4, -1, 0)", UNKNOWN, () -> x.lastText(4, -1, 0));
+        due.test("Promise 28", "THE LAST of the TEXT u in a TEXT", () -> {
+            due.is("lastText(0, 1, MAX)", sought().lastText(0, 1, MAX), 2);
+            due.is("lastText(0, 1, 3)", sought().lastText(0, 1, 3), 2);
+            due.is("lastText(0, 1, 2)", sought().lastText(0, 1, 2), 2);
+            due.is("lastText(0, 1, 1)", sought().lastText(0, 1, 1), 0);
+            due.is("lastText(0, 1, 0)", sought().lastText(0, 1, 0), 0);
+            due.is("lastText(0, 4, 9), overlapping", sought().lastText(0, 4, 9), 2);
+            due.is("lastText(0, 2, 6), empty", sought().lastText(0, 2, 6), 5);
+            due.is("lastText(0, 2, 5), empty", sought().lastText(0, 2, 5), 5);
+            due.is("lastText(0, 2, 0), empty", sought().lastText(0, 2, 0), 0);
+            due.is("lastText(2, 2, 1), both empty", sought().lastText(2, 2, 1), 0);
+        });
+        due.test("Promise 28", "NONE", () -> {
+            due.is("lastText(0, 1, -1)", sought().lastText(0, 1, -1), NONE);
+            due.is("lastText(0, 1, MIN)", sought().lastText(0, 1, MIN), NONE);
+            due.is("lastText(0, 2, -1), empty", sought().lastText(0, 2, -1), NONE);
+            due.is("lastText(0, 3, 9), longer", sought().lastText(0, 3, 9), NONE);
+            due.is("lastText(2, 1, 9), in an empty one", sought().lastText(2, 1, 9), NONE);
+        });
+        due.test("Promise 28", "UNKNOWN", () -> {
+            due.texts(TextTest::alike, "lastText(t, 0, 0)", 0, (x, t) -> x.lastText(t, 0, 0));
+            due.texts(TextTest::alike, "lastText(0, u, 0)", 0, (x, u) -> x.lastText(0, u, 0));
+        });
+        due.test("Promise 28", "MISSING: either", () -> {
+            missing("lastText(t, 0, 9)", NONE, (x, t) -> x.lastText(t, 0, 9));
+            missing("lastText(0, u, 2)", 2, (x, u) -> x.lastText(0, u, 2));
+        });
+    }
+
+    /** Of the texts 0, abcab, and 1, xab. */
+    private static void same(int at, int from, int n, int want) {
+        String call = "region(0, " + at + ", 1, " + from + ", " + n + ")";
+        due.is(call, with("abcab", "xab").region(0, at, 1, from, n), want);
     }
 
     private static void region() {
-        RowsOfSigns x = with("abcab", "xab");
-        due.is("29 region(0, 0, 1, 1, 2)", x.region(0, 0, 1, 1, 2), 1);
-        due.is("29 region(0, 3, 1, 1, 2)", x.region(0, 3, 1, 1, 2), 1);
-        due.is("29 region(0, 1, 1, 1, 2)", x.region(0, 1, 1, 1, 2), 0);
-        due.is("29 region(0, 2, 1, 0, 3)", x.region(0, 2, 1, 0, 3), 0);
-        due.is("29 region(0, 3, 1, 1, 3), beyond both", x.region(0, 3, 1, 1, 3), 0);
-        due.is("29 region(0, 0, 1, 1, 3), beyond u", x.region(0, 0, 1, 1, 3), 0);
-        due.is("29 region(1, 1, 0, 0, 3), beyond t", x.region(1, 1, 0, 0, 3), 0);
-        due.is("29 region(0, 0, 0, 3, 2), itself", x.region(0, 0, 0, 3, 2), 1);
-        due.is("29 region(0, 5, 1, 3, 0)", x.region(0, 5, 1, 3, 0), 1);
-        due.is("29 region(0, 6, 1, 3, 0)", x.region(0, 6, 1, 3, 0), 0);
-        due.is("29 region(0, 5, 1, 4, 0)", x.region(0, 5, 1, 4, 0), 0);
-        due.is("29 region(0, -1, 1, 0, 0)", x.region(0, -1, 1, 0, 0), 0);
-        due.is("29 region(0, 0, 1, -1, 0)", x.region(0, 0, 1, -1, 0), 0);
-        due.is("29 region(0, 0, 1, -1, -5)", x.region(0, 0, 1, -1, -5), 0);
-        due.is("29 region(0, 9, 1, 7, -4)", x.region(0, 9, 1, 7, -4), 1);
-        due.is("29 region(0, 10, 1, 7, -4)", x.region(0, 10, 1, 7, -4), 0);
-        due.is("29 region(0, 9, 1, 8, -4)", x.region(0, 9, 1, 8, -4), 0);
-        due.is("29 region(0, 0, 1, 0, MIN)", x.region(0, 0, 1, 0, MIN), 1);
-        due.is("29 region(0, MAX, 1, MAX, MIN)", x.region(0, MAX, 1, MAX, MIN), 1);
-        due.is("29 region(0, MAX, 1, 0, MAX)", x.region(0, MAX, 1, 0, MAX), 0);
-        due.is("29 region(0, 0, 1, MAX, 1)", x.region(0, 0, 1, MAX, 1), 0);
-        due.is("29 region(0, MIN, 1, MIN, MAX)", x.region(0, MIN, 1, MIN, MAX), 0);
-        due.refused(x, "29 region(0, -1, 2, 0, 1)", MISSING, () -> x.region(0, -1, 2, 0, 1));
-        due.refused(x, "29 region(2, 0, 0, 0, 1)", MISSING, () -> x.region(2, 0, 0, 0, 1));
-        due.refused(x, "29 region(2, 0, 8, 0, 1)", UNKNOWN, () -> x.region(2, 0, 8, 0, 1));
-        due.refused(x, "29 region(-1, 0, 2, 0, 1)", UNKNOWN, () -> x.region(-1, 0, 2, 0, 1));
+        due.test("Promise 29", "1: the n SIGNS of a TEXT from at on, and those of u from from on, are there and "
+                + "the same, one by one; 0: not so", () -> {
+            same(0, 1, 2, 1);
+            same(3, 1, 2, 1);
+            same(0, 1, 1, 1);
+            same(1, 1, 2, 0);
+            same(0, 0, 1, 0);
+            same(2, 0, 3, 0);
+            due.is("region(0, 0, 1, 0, 3), only the last one is another",
+                    with("abc", "abd").region(0, 0, 1, 0, 3), 0);
+            due.is("region(0, 0, 1, 0, 2), ahead of it", with("abc", "abd").region(0, 0, 1, 0, 2), 1);
+            due.is("region(0, 0, 1, 0, 200)",
+                    with("x".repeat(200), "x".repeat(200)).region(0, 0, 1, 0, 200), 1);
+            due.is("region(0, 0, 0, 3, 2) of one text", with("abcab").region(0, 0, 0, 3, 2), 1);
+        });
+        due.test("Promise 29", "It is 0, too, if at or from is below 0", () -> {
+            same(0, 1, 0, 1);
+            same(-1, 1, 0, 0);
+            same(0, 0, 0, 1);
+            same(0, -1, 0, 0);
+            same(-1, 0, 2, 0);
+            same(-1, -1, -1, 0);
+            same(MIN, MIN, MAX, 0);
+        });
+        due.test("Promise 29", "or at and n together are more than how many SIGNS the TEXT has", () -> {
+            due.is("region(0, 3, 1, 0, 2)", with("abcab", "abcab").region(0, 3, 1, 0, 2), 1);
+            due.is("region(0, 3, 1, 0, 3)", with("abcab", "abcab").region(0, 3, 1, 0, 3), 0);
+            due.is("region(0, 1, 1, 0, MAX)", with("abcab", "abcab").region(0, 1, 1, 0, MAX), 0);
+            same(5, 0, 0, 1);
+            same(6, 0, 0, 0);
+            same(MAX, 0, 1, 0);
+            same(MAX, 0, 0, 0);
+        });
+        due.test("Promise 29", "or from and n than u has", () -> {
+            same(0, 1, 2, 1);
+            same(0, 1, 3, 0);
+            due.is("region(0, 0, 1, 3, 3)", with("abcab", "abcab").region(0, 0, 1, 3, 3), 0);
+            same(0, 3, 0, 1);
+            same(0, 4, 0, 0);
+            same(0, MAX, 1, 0);
+            same(0, MAX, 0, 0);
+        });
+        due.test("Promise 29", "if n is 0 or below, no SIGN is looked at, but these bounds are", () -> {
+            same(0, 0, 1, 0);
+            same(0, 0, 0, 1);
+            same(0, 0, -1, 1);
+            same(0, 0, MIN, 1);
+            same(9, 0, -4, 1);
+            same(10, 0, -4, 0);
+            same(0, 7, -4, 1);
+            same(0, 8, -4, 0);
+            same(MAX, MAX, MIN, 1);
+            same(MAX, 0, -MAX + 5, 1);
+            same(MAX, 0, -MAX + 6, 0);
+            due.is("region(0, 0, 0, 0, 0) of empty texts", with("").region(0, 0, 0, 0, 0), 1);
+        });
+        due.test("Promise 29", "UNKNOWN", () -> {
+            due.texts(TextTest::alike, "region(t, 0, 0, 0, 3)", 1, (x, t) -> x.region(t, 0, 0, 0, 3));
+            due.texts(TextTest::alike, "region(0, 0, u, 0, 3)", 1, (x, u) -> x.region(0, 0, u, 0, 3));
+        });
+        due.test("Promise 29", "MISSING: either", () -> {
+            missing("region(t, 0, 0, 0, 0)", 1, (x, t) -> x.region(t, 0, 0, 0, 0));
+            missing("region(0, 0, u, 0, 0)", 1, (x, u) -> x.region(0, 0, u, 0, 0));
+            missing("region(t, -1, 0, 0, 0)", 0, (x, t) -> x.region(t, -1, 0, 0, 0));
+        });
+    }
+
+    private static void ordered(String one, String other, int want) {
+        String call = " of " + Rows.shown(one) + " and " + Rows.shown(other);
+        due.is("order(0, 1)" + call, with(one, other).order(0, 1), want);
+        due.is("order(1, 0)" + call, with(one, other).order(1, 0), -want);
     }
 
     private static void order() {
-        RowsOfSigns x = with("abc", "abz", "ab", "", "\u00ff");
-        due.is("30 order(0, 1)", x.order(0, 1), 'c' - 'z');
-        due.is("30 order(1, 0)", x.order(1, 0), 'z' - 'c');
-        due.is("30 order(0, 2)", x.order(0, 2), 1);
-        due.is("30 order(3, 0)", x.order(3, 0), -3);
-        due.is("30 order(3, 3)", x.order(3, 3), 0);
-        due.is("30 order(0, 4)", x.order(0, 4), 'a' - 255);
-        due.is("30 order(4, 3)", x.order(4, 3), 1);
-        due.refused(x, "30 order(0, 5)", MISSING, () -> x.order(0, 5));
-        due.refused(x, "30 order(5, 0)", MISSING, () -> x.order(5, 0));
-        due.refused(x, "30 order(5, 8)", UNKNOWN, () -> x.order(5, 8));
-        due.refused(x, "30 order(-1, 5)", UNKNOWN, () -> x.order(-1, 5));
+        due.test("Promise 30", "The ORDER of two TEXTS", () -> {
+            ordered("", "", 0);
+            ordered("abc", "abc", 0);
+            ordered("abc", "abd", -1);
+            ordered("abz", "abc", 'z' - 'c');
+            ordered("ab", "abc", -1);
+            ordered("abc", "", 3);
+            ordered("\u0000", "\u00ff", -255);
+            ordered("b", "azzz", 1);
+            ordered("x".repeat(200), "", 200);
+            ordered("x".repeat(199) + "y", "x".repeat(200), 1);
+            due.is("order(0, 0)", small().order(0, 0), 0);
+        });
+        due.test("Promise 30", "UNKNOWN", () -> {
+            due.texts(TextTest::alike, "order(t, 0)", 0, (x, t) -> x.order(t, 0));
+            due.texts(TextTest::alike, "order(0, u)", 0, (x, u) -> x.order(0, u));
+        });
+        due.test("Promise 30", "MISSING: either", () -> {
+            missing("order(t, 0)", -4, (x, t) -> x.order(t, 0));
+            missing("order(0, u)", 4, (x, u) -> x.order(0, u));
+        });
     }
 
     private static void begins() {
-        RowsOfSigns x = with("abcab", "ab", "");
-        due.is("31 begins(0, 1, 0)", x.begins(0, 1, 0), 1);
-        due.is("31 begins(0, 1, 3)", x.begins(0, 1, 3), 1);
-        due.is("31 begins(0, 1, 1)", x.begins(0, 1, 1), 0);
-        due.is("31 begins(0, 1, 4)", x.begins(0, 1, 4), 0);
-        due.is("31 begins(0, 1, -1)", x.begins(0, 1, -1), 0);
-        due.is("31 begins(0, 1, MAX)", x.begins(0, 1, MAX), 0);
-        due.is("31 begins(0, 1, MIN)", x.begins(0, 1, MIN), 0);
-        due.is("31 begins(0, 2, 5)", x.begins(0, 2, 5), 1);
-        due.is("31 begins(0, 2, 6)", x.begins(0, 2, 6), 0);
-        due.is("31 begins(0, 2, -1)", x.begins(0, 2, -1), 0);
-        due.is("31 begins(1, 0, 0)", x.begins(1, 0, 0), 0);
-        due.refused(x, "31 begins(0, 3, 0)", MISSING, () -> x.begins(0, 3, 0));
-        due.refused(x, "31 begins(3, 0, -1)", MISSING, () -> x.begins(3, 0, -1));
-        due.refused(x, "31 begins(3, 8, 0)", UNKNOWN, () -> x.begins(3, 8, 0));
-        due.refused(x, "31 begins(8, 3, 0)", UNKNOWN, () -> x.begins(8, 3, 0));
+        due.test("Promise 31", "1: the TEXT u STANDS in a TEXT at a place; 0: not so", () -> {
+            due.is("begins(0, 1, 0)", sought().begins(0, 1, 0), 1);
+            due.is("begins(0, 1, 1)", sought().begins(0, 1, 1), 0);
+            due.is("begins(0, 1, 2)", sought().begins(0, 1, 2), 1);
+            due.is("begins(0, 4, 2), to the end", sought().begins(0, 4, 2), 1);
+            due.is("begins(0, 4, 3), beyond the end", sought().begins(0, 4, 3), 0);
+            due.is("begins(0, 3, 0), longer", sought().begins(0, 3, 0), 0);
+            due.is("begins(0, 0, 0)", sought().begins(0, 0, 0), 1);
+            due.is("begins(0, 2, 0), empty", sought().begins(0, 2, 0), 1);
+            due.is("begins(0, 2, 3), empty", sought().begins(0, 2, 3), 1);
+        });
+        due.test("Promise 31", "also if there is no such place", () -> {
+            due.is("begins(0, 2, 0), empty", sought().begins(0, 2, 0), 1);
+            due.is("begins(0, 2, -1), empty", sought().begins(0, 2, -1), 0);
+            due.is("begins(0, 2, 5), empty", sought().begins(0, 2, 5), 1);
+            due.is("begins(0, 2, 6), empty", sought().begins(0, 2, 6), 0);
+            due.is("begins(2, 2, 0), both empty", sought().begins(2, 2, 0), 1);
+            due.is("begins(2, 2, 1), both empty", sought().begins(2, 2, 1), 0);
+            due.is("begins(0, 1, -1)", sought().begins(0, 1, -1), 0);
+            due.is("begins(0, 1, MIN)", sought().begins(0, 1, MIN), 0);
+            due.is("begins(0, 1, MAX)", sought().begins(0, 1, MAX), 0);
+        });
+        due.test("Promise 31", "UNKNOWN", () -> {
+            due.texts(TextTest::alike, "begins(t, 0, 0)", 1, (x, t) -> x.begins(t, 0, 0));
+            due.texts(TextTest::alike, "begins(0, u, 0)", 1, (x, u) -> x.begins(0, u, 0));
+        });
+        due.test("Promise 31", "MISSING: either", () -> {
+            missing("begins(t, 0, 0)", 0, (x, t) -> x.begins(t, 0, 0));
+            missing("begins(0, u, 0)", 1, (x, u) -> x.begins(0, u, 0));
+            missing("begins(0, u, -1)", 0, (x, u) -> x.begins(0, u, -1));
+        });
     }
 
     private static void swap() {
-        RowsOfSigns x = with("abcab", "old");
-        due.is("32 swap(0, a, b, 1)", x.swap(0, 'a', 'b', 1), 5);
-        due.is("32 swap", Due.text(x, 1), "bbcbb");
-        due.is("32 the text stays", Due.text(x, 0), "abcab");
-        due.is("32 swap(0, b, 255, 0)", x.swap(0, 'b', 255, 0), 5);
-        due.is("32 swap in its own place", Due.text(x, 0), "a\u00ffca\u00ff");
-        due.is("32 swap(0, 0, 255, 2)", x.swap(0, 0, 255, 2), 5);
-        due.is("32 swap of none", Due.text(x, 2), "a\u00ffca\u00ff");
-        due.is("32 swap(0, a, 0, 0)", x.swap(0, 'a', 0, 0), 5);
-        due.is("32 swap by 0", Due.text(x, 0), "\u0000\u00ffc\u0000\u00ff");
-        due.refused(x, "32 swap(3, a, b, 0)", MISSING, () -> x.swap(3, 'a', 'b', 0));
-        due.refused(x, "32 swap(3, a, 256, 0)", OUTSIDE, () -> x.swap(3, 'a', 256, 0));
-        due.refused(x, "32 swap(0, -1, b, 0)", OUTSIDE, () -> x.swap(0, -1, 'b', 0));
-        due.refused(x, "32 swap(0, 256, b, 0)", OUTSIDE, () -> x.swap(0, 256, 'b', 0));
-        due.refused(x, "32 swap(0, a, -1, 0)", OUTSIDE, () -> x.swap(0, 'a', -1, 0));
-        due.refused(x, "32 swap(8, -1, b, 0)", UNKNOWN, () -> x.swap(8, -1, 'b', 0));
-        due.refused(x, "32 swap(3, a, 256, -1)", UNKNOWN, () -> x.swap(3, 'a', 256, -1));
+        due.test("Promise 32", "The TEXT into becomes a TEXT, each SIGN old being another one, with, in it: "
+                + "how many SIGNS it has", () -> {
+            makes(small(), "swap(0, a, z, 5)", x -> x.swap(0, 'a', 'z', 5), 5, "zbcz");
+            makes(small(), "swap(0, b, a, 4)", x -> x.swap(0, 'b', 'a', 4), 4, "aaca");
+            makes(small(), "swap(0, a, z, 0)", x -> x.swap(0, 'a', 'z', 0), 0, "zbcz");
+            makes(small(), "swap(0, z, a, 2), none is there", x -> x.swap(0, 'z', 'a', 2), 2, "abca");
+            makes(small(), "swap(0, a, a, 2)", x -> x.swap(0, 'a', 'a', 2), 2, "abca");
+            makes(small(), "swap(1, a, z, 0), empty", x -> x.swap(1, 'a', 'z', 0), 0, "");
+            RowsOfSigns x = small();
+            x.swap(0, 'a', 'z', 5);
+            due.is("swap(0, a, z, 5), the text stays", Rows.text(x, 0), "abca");
+        });
+        due.test("Promise 32", "UNKNOWN", () -> {
+            due.texts(TextTest::alike, "swap(t, a, b, 5)", 3, (x, t) -> x.swap(t, 'a', 'b', 5));
+            due.texts(TextTest::alike, "swap(0, a, b, into)", 3, (x, into) -> x.swap(0, 'a', 'b', into));
+        });
+        due.test("Promise 32", "OUTSIDE: no SIGN", () -> {
+            due.signs(TextTest::small, "swap(0, old, b, 5)", 4, 4, (x, old) -> x.swap(0, old, 'b', 5));
+            due.signs(TextTest::small, "swap(0, a, with, 5)", 4, 4, (x, with) -> x.swap(0, 'a', with, 5));
+            makes(with("a\u0000\u00ff"), "swap(0, 0, 255, 0)", x -> x.swap(0, 0, 255, 0), 0, "a\u00ff\u00ff");
+            makes(with("a\u0000\u00ff"), "swap(0, 255, 0, 0)", x -> x.swap(0, 255, 0, 0), 0, "a\u0000\u0000");
+        });
+        due.test("Promise 32", "MISSING: t", () -> {
+            missing("swap(t, a, b, 0)", 0, (x, t) -> x.swap(t, 'a', 'b', 0));
+            makes(small(), "swap(0, a, z, 3), into a missing one", x -> x.swap(0, 'a', 'z', 3), 3, "zbcz");
+        });
     }
 
     private static void sub() {
-        RowsOfSigns x = with("abcdef", "old");
-        due.is("33 sub(0, 1, 4, 1)", x.sub(0, 1, 4, 1), 3);
-        due.is("33 sub", Due.text(x, 1), "bcd");
-        due.is("33 the text stays", Due.text(x, 0), "abcdef");
-        due.is("33 sub(0, 6, 6, 2)", x.sub(0, 6, 6, 2), 0);
-        due.is("33 sub, empty", Due.text(x, 2), "");
-        due.is("33 sub(0, 2, 5, 0)", x.sub(0, 2, 5, 0), 3);
-        due.is("33 sub in its own place", Due.text(x, 0), "cde");
-        due.is("33 sub(0, 0, 3, 0)", x.sub(0, 0, 3, 0), 3);
-        due.refused(x, "33 sub(0, 0, 4, 1)", PLACE, () -> x.sub(0, 0, 4, 1));
-        due.refused(x, "33 sub(0, -1, 2, 1)", PLACE, () -> x.sub(0, -1, 2, 1));
-        due.refused(x, "33 sub(0, 2, 1, 1)", PLACE, () -> x.sub(0, 2, 1, 1));
-        due.refused(x, "33 sub(0, MAX, MIN, 1)", PLACE, () -> x.sub(0, MAX, MIN, 1));
-        due.refused(x, "33 sub(0, 2, 1, 7), missing still", PLACE, () -> x.sub(0, 2, 1, 7));
-        due.refused(x, "33 sub(5, -1, 2, 1)", MISSING, () -> x.sub(5, -1, 2, 1));
-        due.refused(x, "33 sub(5, -1, 2, 8)", UNKNOWN, () -> x.sub(5, -1, 2, 8));
-        due.refused(x, "33 sub(-1, -1, 2, 5)", UNKNOWN, () -> x.sub(-1, -1, 2, 5));
+        due.test("Promise 33", "The TEXT into becomes the SIGNS of a TEXT FROM one place TO another one: "
+                + "how many these are", () -> {
+            makes(small(), "sub(0, 0, 4, 5)", x -> x.sub(0, 0, 4, 5), 5, "abca");
+            makes(small(), "sub(0, 1, 3, 4)", x -> x.sub(0, 1, 3, 4), 4, "bc");
+            makes(small(), "sub(0, 1, 3, 0)", x -> x.sub(0, 1, 3, 0), 0, "bc");
+            makes(small(), "sub(0, 3, 4, 2)", x -> x.sub(0, 3, 4, 2), 2, "a");
+            makes(small(), "sub(0, 2, 2, 0)", x -> x.sub(0, 2, 2, 0), 0, "");
+            RowsOfSigns x = small();
+            x.sub(0, 1, 3, 4);
+            due.is("sub(0, 1, 3, 4), the text stays", Rows.text(x, 0), "abca");
+        });
+        due.test("Promise 33", "UNKNOWN", () -> {
+            due.texts(TextTest::alike, "sub(t, 0, 2, 5)", 2, (x, t) -> x.sub(t, 0, 2, 5));
+            due.texts(TextTest::alike, "sub(0, 0, 2, into)", 2, (x, into) -> x.sub(0, 0, 2, into));
+        });
+        due.test("Promise 33", "MISSING: t", () -> {
+            missing("sub(t, 0, 0, 4)", 0, (x, t) -> x.sub(t, 0, 0, 4));
+            makes(small(), "sub(0, 0, 2, 3), into a missing one", x -> x.sub(0, 0, 2, 3), 3, "ab");
+        });
+        due.test("Promise 33", "PLACE: from below 0", () -> due.bounds(TextTest::small, "sub(0, from, 4, 5)",
+                0, 4, 4, 0, PLACE, (x, from) -> x.sub(0, from, 4, 5)));
+        due.test("Promise 33", "to above how many SIGNS there are", () -> {
+            due.bounds(TextTest::small, "sub(0, 0, to, 5)", 0, 0, 4, 4, PLACE, (x, to) -> x.sub(0, 0, to, 5));
+            due.bounds(TextTest::small, "sub(1, 0, to, 5), empty", 0, 0, 0, 0, PLACE, (x, to) -> x.sub(1, 0, to, 5));
+            due.refused(TextTest::small, "sub(0, 5, 5, 0)", PLACE, x -> x.sub(0, 5, 5, 0));
+        });
+        due.test("Promise 33", "from above to", () -> {
+            due.is("sub(0, 2, 2, 5)", small().sub(0, 2, 2, 5), 0);
+            due.refused(TextTest::small, "sub(0, 2, 1, 5), missing", PLACE, x -> x.sub(0, 2, 1, 5));
+            due.refused(TextTest::small, "sub(0, 2, 1, 0)", PLACE, x -> x.sub(0, 2, 1, 0));
+            due.refused(TextTest::small, "sub(0, MAX, MIN, 0)", PLACE, x -> x.sub(0, MAX, MIN, 0));
+        });
+    }
+
+    private static void trimmed(String text, String want) {
+        makes(with(text), "trim(0, 1) of " + Rows.shown(text), x -> x.trim(0, 1), 1, want);
+        makes(with(text), "trim(0, 0) of " + Rows.shown(text), x -> x.trim(0, 0), 0, want);
     }
 
     private static void trim() {
-        RowsOfSigns x = with("\u0000 a \u0020b!\t ", "\u001f \u0020", "", "!", "old");
-        due.is("34 trim(0, 4)", x.trim(0, 4), 5);
-        due.is("34 trim", Due.text(x, 4), "a  b!");
-        due.is("34 the text stays", x.textSize(0), 9);
-        due.is("34 trim(1, 4), all blank", x.trim(1, 4), 0);
-        due.is("34 trim, all blank", Due.text(x, 4), "");
-        due.is("34 trim(2, 5), empty", x.trim(2, 5), 0);
-        due.is("34 trim, empty", Due.text(x, 5), "");
-        due.is("34 trim(3, 5), no blank", x.trim(3, 5), 1);
-        due.is("34 trim(0, 0)", x.trim(0, 0), 5);
-        due.is("34 trim in its own place", Due.text(x, 0), "a  b!");
-        Due.write(x, 6, "\u00ff\u007f \u00a0");
-        due.is("34 trim(6, 6)", x.trim(6, 6), 4);
-        due.refused(x, "34 trim(7, 0)", MISSING, () -> x.trim(7, 0));
-        due.refused(x, "34 trim(7, 8)", UNKNOWN, () -> x.trim(7, 8));
-        due.refused(x, "34 trim(-1, 0)", UNKNOWN, () -> x.trim(-1, 0));
+        due.test("Promise 34", "The TEXT into becomes a TEXT without the SIGNS 0 to 32 at its beginning and its end: "
+                + "how many SIGNS it has", () -> {
+            trimmed("abc", "abc");
+            trimmed("  abc", "abc");
+            trimmed("abc  ", "abc");
+            trimmed(" a b ", "a b");
+            trimmed("\u0000a\u0000", "a");
+            trimmed("\u001fa\u001f", "a");
+            trimmed("\u0020a\u0020", "a");
+            trimmed("!a!", "!a!");
+            trimmed("\u00ff\u007f\u00a0", "\u00ff\u007f\u00a0");
+            trimmed("", "");
+            trimmed(" ", "");
+            trimmed("\u0000\u0020", "");
+            trimmed(" ".repeat(200), "");
+            trimmed(" ".repeat(100) + "!" + " ".repeat(99), "!");
+            for (int sign = 0; sign < 256; sign++) {
+                String text = (char) sign + "a" + (char) sign;
+                trimmed(text, sign <= 32 ? "a" : text);
+            }
+            RowsOfSigns x = with(" a ", "b");
+            x.trim(0, 1);
+            due.is("trim(0, 1), the text stays", Rows.text(x, 0), " a ");
+        });
+        due.test("Promise 34", "UNKNOWN", () -> {
+            due.texts(TextTest::alike, "trim(t, 5)", 3, (x, t) -> x.trim(t, 5));
+            due.texts(TextTest::alike, "trim(0, into)", 3, (x, into) -> x.trim(0, into));
+        });
+        due.test("Promise 34", "MISSING: t", () -> {
+            missing("trim(t, 4)", 0, (x, t) -> x.trim(t, 4));
+            makes(small(), "trim(0, 3), into a missing one", x -> x.trim(0, 3), 3, "abca");
+        });
     }
 
     private static void repeat() {
-        RowsOfSigns x = with("abc", "", "x".repeat(100), "old");
-        due.is("35 repeat(0, 3, 3)", x.repeat(0, 3, 3), 9);
-        due.is("35 repeat", Due.text(x, 3), "abcabcabc");
-        due.is("35 the text stays", Due.text(x, 0), "abc");
-        due.is("35 repeat(0, 0, 3)", x.repeat(0, 0, 3), 0);
-        due.is("35 repeat, none", Due.text(x, 3), "");
-        due.is("35 repeat(0, 1, 4)", x.repeat(0, 1, 4), 3);
-        due.is("35 repeat(0, 66, 4)", x.repeat(0, 66, 4), 198);
-        due.is("35 repeat(1, MAX, 5), empty", x.repeat(1, MAX, 5), 0);
-        due.is("35 repeat, empty", Due.text(x, 5), "");
-        due.is("35 repeat(2, 2, 2)", x.repeat(2, 2, 2), 200);
-        due.is("35 repeat in its own place", Due.text(x, 2), "x".repeat(200));
-        due.refused(x, "35 repeat(0, 67, 3)", FULL, () -> x.repeat(0, 67, 3));
-        due.refused(x, "35 repeat(0, MAX, 3)", FULL, () -> x.repeat(0, MAX, 3));
-        due.refused(x, "35 repeat(2, 1 << 29, 3)", FULL, () -> x.repeat(2, 1 << 29, 3));
-        due.refused(x, "35 repeat(0, -1, 3)", COUNT, () -> x.repeat(0, -1, 3));
-        due.refused(x, "35 repeat(0, MIN, 3)", COUNT, () -> x.repeat(0, MIN, 3));
-        due.refused(x, "35 repeat(1, -1, 7), missing still", COUNT, () -> x.repeat(1, -1, 7));
-        due.refused(x, "35 repeat(7, -1, 3)", MISSING, () -> x.repeat(7, -1, 3));
-        due.refused(x, "35 repeat(7, -1, 8)", UNKNOWN, () -> x.repeat(7, -1, 8));
-        due.refused(x, "35 repeat(-1, 1, 0)", UNKNOWN, () -> x.repeat(-1, 1, 0));
+        due.test("Promise 35", "The TEXT into becomes n times a TEXT, one behind the other: "
+                + "how many SIGNS it has", () -> {
+            makes(small(), "repeat(4, 0, 5)", x -> x.repeat(4, 0, 5), 5, "");
+            makes(small(), "repeat(4, 1, 5)", x -> x.repeat(4, 1, 5), 5, "ab");
+            makes(small(), "repeat(4, 2, 0)", x -> x.repeat(4, 2, 0), 0, "abab");
+            makes(small(), "repeat(4, 3, 4)", x -> x.repeat(4, 3, 4), 4, "ababab");
+            makes(small(), "repeat(1, 0, 0), empty", x -> x.repeat(1, 0, 0), 0, "");
+            makes(small(), "repeat(1, 1, 0), empty", x -> x.repeat(1, 1, 0), 0, "");
+            makes(small(), "repeat(1, MAX, 2), empty", x -> x.repeat(1, MAX, 2), 2, "");
+            RowsOfSigns x = small();
+            x.repeat(4, 3, 0);
+            due.is("repeat(4, 3, 0), the text stays", Rows.text(x, 4), "ab");
+        });
+        due.test("Promise 35", "UNKNOWN", () -> {
+            due.texts(TextTest::alike, "repeat(t, 2, 5)", 6, (x, t) -> x.repeat(t, 2, 5));
+            due.texts(TextTest::alike, "repeat(0, 2, into)", 6, (x, into) -> x.repeat(0, 2, into));
+        });
+        due.test("Promise 35", "MISSING: t", () -> {
+            missing("repeat(t, 2, 0)", 0, (x, t) -> x.repeat(t, 2, 0));
+            makes(small(), "repeat(4, 2, 3), into a missing one", x -> x.repeat(4, 2, 3), 3, "abab");
+        });
+        due.test("Promise 35", "COUNT", () -> {
+            due.is("repeat(0, 0, 4)", small().repeat(0, 0, 4), 0);
+            due.refused(TextTest::small, "repeat(0, -1, 4)", COUNT, x -> x.repeat(0, -1, 4));
+            due.refused(TextTest::small, "repeat(0, MIN, 4)", COUNT, x -> x.repeat(0, MIN, 4));
+            due.refused(TextTest::small, "repeat(1, -1, 2), empty", COUNT, x -> x.repeat(1, -1, 2));
+        });
+        due.test("Promise 35", "FULL", () -> {
+            makes(with("x"), "repeat(0, 200, 1)", x -> x.repeat(0, 200, 1), 1, "x".repeat(200));
+            due.refused(() -> with("x", "y"), "repeat(0, 201, 1)", FULL, x -> x.repeat(0, 201, 1));
+            makes(small(), "repeat(4, 100, 4)", x -> x.repeat(4, 100, 4), 4, "ab".repeat(100));
+            due.refused(TextTest::small, "repeat(4, 101, 4)", FULL, x -> x.repeat(4, 101, 4));
+            due.is("repeat(0, 66, 1) of three", with("xyz").repeat(0, 66, 1), 198);
+            due.refused(() -> with("xyz"), "repeat(0, 67, 1) of three", FULL, x -> x.repeat(0, 67, 1));
+            due.is("repeat(0, 1, 0) of 200", with("x".repeat(200)).repeat(0, 1, 0), 200);
+            due.refused(() -> with("x".repeat(200)), "repeat(0, 2, 0) of 200", FULL, x -> x.repeat(0, 2, 0));
+            due.refused(TextTest::small, "repeat(0, MAX, 4)", FULL, x -> x.repeat(0, MAX, 4));
+            due.refused(TextTest::small, "repeat(0, 1 << 30, 4)", FULL, x -> x.repeat(0, 1 << 30, 4));
+        });
     }
 
     private static void join() {
-        RowsOfSigns x = with("abc", "de", "", "old", "x".repeat(198));
-        due.is("36 join(0, 1, 3)", x.join(0, 1, 3), 5);
-        due.is("36 join", Due.text(x, 3), "abcde");
-        due.is("36 join(1, 2, 5)", x.join(1, 2, 5), 2);
-        due.is("36 join(2, 2, 2)", x.join(2, 2, 2), 0);
-        due.is("36 join(2, 2, 3)", x.join(2, 2, 3), 0);
-        due.is("36 join of empty ones", Due.text(x, 3), "");
-        due.is("36 join(0, 1, 1)", x.join(0, 1, 1), 5);
-        due.is("36 join into the other", Due.text(x, 1), "abcde");
-        due.is("36 join(0, 0, 0)", x.join(0, 0, 0), 6);
-        due.is("36 join into both", Due.text(x, 0), "abcabc");
-        due.refused(x, "36 join beyond 200", FULL, () -> x.join(4, 0, 3));
-        due.refused(x, "36 join beyond 200, the other one", FULL, () -> x.join(0, 4, 0));
-        due.is("36 join(4, 5, 4) to 200", x.join(4, 5, 4), 200);
-        due.is("36 join to 200", Due.text(x, 4), "x".repeat(198) + "de");
-        due.refused(x, "36 join(7, 0, 3)", MISSING, () -> x.join(7, 0, 3));
-        due.refused(x, "36 join(4, 7, 3)", MISSING, () -> x.join(4, 7, 3));
-        due.refused(x, "36 join(7, 0, 8)", UNKNOWN, () -> x.join(7, 0, 8));
-        due.refused(x, "36 join(7, -1, 0)", UNKNOWN, () -> x.join(7, -1, 0));
-        due.refused(x, "36 join(8, 7, 0)", UNKNOWN, () -> x.join(8, 7, 0));
+        due.test("Promise 36", "The TEXT into becomes a TEXT and u behind it: how many SIGNS it has", () -> {
+            makes(small(), "join(0, 4, 5)", x -> x.join(0, 4, 5), 5, "abcaab");
+            makes(small(), "join(4, 0, 5)", x -> x.join(4, 0, 5), 5, "ababca");
+            makes(small(), "join(0, 4, 0)", x -> x.join(0, 4, 0), 0, "abcaab");
+            makes(small(), "join(0, 4, 4)", x -> x.join(0, 4, 4), 4, "abcaab");
+            makes(small(), "join(4, 4, 4)", x -> x.join(4, 4, 4), 4, "abab");
+            makes(small(), "join(0, 1, 5)", x -> x.join(0, 1, 5), 5, "abca");
+            makes(small(), "join(1, 0, 5)", x -> x.join(1, 0, 5), 5, "abca");
+            makes(small(), "join(1, 1, 0), both empty", x -> x.join(1, 1, 0), 0, "");
+            RowsOfSigns x = small();
+            x.join(0, 4, 5);
+            due.is("join(0, 4, 5), the text stays", Rows.text(x, 0), "abca");
+            due.is("join(0, 4, 5), u stays", Rows.text(x, 4), "ab");
+        });
+        due.test("Promise 36", "UNKNOWN", () -> {
+            due.texts(TextTest::alike, "join(t, 0, 5)", 6, (x, t) -> x.join(t, 0, 5));
+            due.texts(TextTest::alike, "join(0, u, 5)", 6, (x, u) -> x.join(0, u, 5));
+            due.texts(TextTest::alike, "join(0, 0, into)", 6, (x, into) -> x.join(0, 0, into));
+        });
+        due.test("Promise 36", "MISSING: t, u", () -> {
+            missing("join(t, 0, 5)", 4, (x, t) -> x.join(t, 0, 5));
+            missing("join(0, u, 5)", 4, (x, u) -> x.join(0, u, 5));
+            makes(small(), "join(0, 4, 3), into a missing one", x -> x.join(0, 4, 3), 3, "abcaab");
+        });
+        due.test("Promise 36", "FULL", () -> {
+            String many = "x".repeat(198);
+            makes(with(many, "ab"), "join(0, 1, 2) to 200", x -> x.join(0, 1, 2), 2, many + "ab");
+            makes(with(many, "ab"), "join(1, 0, 1) to 200", x -> x.join(1, 0, 1), 1, "ab" + many);
+            due.refused(() -> with(many, "abc"), "join(0, 1, 2) to 201", FULL, x -> x.join(0, 1, 2));
+            due.refused(() -> with(many, "abc"), "join(1, 0, 1) to 201", FULL, x -> x.join(1, 0, 1));
+            due.is("join(0, 1, 0) of 200 and none", with(many + "ab", "").join(0, 1, 0), 200);
+            due.refused(TextTest::alike200, "join(0, 1, 0) to 400", FULL, x -> x.join(0, 1, 0));
+        });
     }
 }
