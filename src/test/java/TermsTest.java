@@ -352,7 +352,7 @@ public final class TermsTest {
             makes("join(1, 1, 1)", x -> x.join(1, 1, 1), 1, ",,");
             makes("next(0, 0)", x -> x.next(0, 0), 0, " a");
             makes("next(0, 1)", x -> x.next(0, 1), 1, " a");
-            makes("nextBy(0, 0, 0)", x -> x.nextBy(0, 1, 1), 1, " a");
+            makes("nextBy(0, 1, 1)", x -> x.nextBy(0, 1, 1), 1, " a");
             makes("nextBy(1, 0, 0)", x -> x.nextBy(1, 0, 0), 0, " ");
             makes("partTo(0, 0)", x -> x.partTo(0, 0), 0, " a");
             makes("joined(59, 0)", x -> x.joined(';', 0), 0, " a;b ");
@@ -392,8 +392,8 @@ public final class TermsTest {
             for (int figure = 0; figure <= 9; figure++) {
                 number(figure, String.valueOf((char) (48 + figure)));
             }
-            for (long ten = 10; ten <= 1000000000000000000L && ten > 0; ten = ten < 1000000000000000000L ? ten * 10 : -1) {
-                int zeros = String.valueOf(ten).length() - 1;
+            for (int zeros = 1; zeros <= 18; zeros++) {
+                long ten = Long.parseLong("1" + "0".repeat(zeros));
                 number(ten - 1, "9".repeat(zeros));
                 number(ten, "1" + "0".repeat(zeros));
                 number(-ten + 1, "-" + "9".repeat(zeros));

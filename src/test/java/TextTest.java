@@ -40,10 +40,6 @@ public final class TextTest {
         return Rows.alike("abc");
     }
 
-    private static RowsOfSigns alike200() {
-        return Rows.alike("x".repeat(200));
-    }
-
     /** An empty text is taken, one that is missing or was forgotten is not. */
     private static void missing(String call, long wantOfEmpty, Due.CallWith made) {
         due.is(call + " of an empty text", made.on(small(), 1), wantOfEmpty);
@@ -549,7 +545,7 @@ public final class TextTest {
             due.refused(() -> with(many, "abc"), "join(0, 1, 2) to 201", FULL, x -> x.join(0, 1, 2));
             due.refused(() -> with(many, "abc"), "join(1, 0, 1) to 201", FULL, x -> x.join(1, 0, 1));
             due.is("join(0, 1, 0) of 200 and none", with(many + "ab", "").join(0, 1, 0), 200);
-            due.refused(TextTest::alike200, "join(0, 1, 0) to 400", FULL, x -> x.join(0, 1, 0));
+            due.refused(() -> with(many + "ab"), "join(0, 0, 0) to 400", FULL, x -> x.join(0, 0, 0));
         });
     }
 }
