@@ -70,7 +70,8 @@ public final class FaceTest {
         for (Field field : RowsOfSigns.class.getDeclaredFields()) {
             int modifiers = field.getModifiers();
             if (Modifier.isPublic(modifiers)) {
-                due.is(field + " is static and final", Modifier.isStatic(modifiers) && Modifier.isFinal(modifiers) ? 1 : 0, 1);
+                due.is(field + " is static and final",
+                        Modifier.isStatic(modifiers) && Modifier.isFinal(modifiers) ? 1 : 0, 1);
                 seen.add(field.getName() + "=" + field.getInt(null));
             } else if (!field.isSynthetic()) {
                 due.is(field + " is private", Modifier.isPrivate(modifiers) ? 1 : 0, 1);

@@ -51,7 +51,8 @@ public final class ModelTest {
         return all;
     }
 
-    private void run(Due due, Map<String, Method> ours, Map<String, Method> models) throws ReflectiveOperationException {
+    private void run(Due due, Map<String, Method> ours, Map<String, Method> models)
+            throws ReflectiveOperationException {
         RowsOfSigns x = new RowsOfSigns();
         Model model = new Model();
         StringBuilder calls = new StringBuilder();

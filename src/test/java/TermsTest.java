@@ -156,7 +156,8 @@ public final class TermsTest {
     }
 
     private static void refusals() {
-        due.test(TERMS, "Each call answers a number. REFUSALS: UNKNOWN (there is no such BUILDER, TEXT, CUTTER)", () -> {
+        due.test(TERMS, "Each call answers a number. REFUSALS: UNKNOWN (there is no such BUILDER, TEXT, CUTTER)",
+                () -> {
             due.bounds(() -> Rows.alike("a"), "size(b)", 0, 1, 3, 1, UNKNOWN, (x, b) -> x.size(b));
             due.bounds(() -> Rows.alike("a"), "textSize(t)", 0, 1, 7, 1, UNKNOWN, (x, t) -> x.textSize(t));
             due.bounds(() -> Rows.alike("a"), "left(c)", 0, 1, 1, 1, UNKNOWN, (x, c) -> x.left(c));
@@ -234,7 +235,8 @@ public final class TermsTest {
             due.is("at(0, 1)", x.at(0, 1), 'c');
             due.is("at(0, 2)", x.at(0, 2), PLACE);
         });
-        due.test(TERMS, "\"FROM a TO b\" of a row are its SIGNS at the PLACES a up to b less 1: none, if a is b", () -> {
+        due.test(TERMS, "\"FROM a TO b\" of a row are its SIGNS at the PLACES a up to b less 1: none, if a is b",
+                () -> {
             String row = "abcd";
             for (int from = 0; from <= 4; from++) {
                 for (int to = from; to <= 4; to++) {

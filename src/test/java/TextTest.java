@@ -268,6 +268,8 @@ public final class TextTest {
             same(6, 0, 0, 0);
             same(MAX, 0, 1, 0);
             same(MAX, 0, 0, 0);
+            same(MAX, MAX, 1, 0);
+            same(MAX, MAX, MAX, 0);
         });
         due.test("Promise 29", "or from and n than u has", () -> {
             same(0, 1, 2, 1);
