@@ -303,7 +303,8 @@ public final class TermsTest {
                 due.is("size(" + b + "), it is there still", x.size(b), 0);
             }
         });
-        due.test(TERMS, "and TEXTS 0 to 7, each of which is MISSING, as at first, or a row, perhaps an empty one", () -> {
+        due.test(TERMS, "and TEXTS 0 to 7, each of which is MISSING, as at first, or a row, perhaps an empty one",
+                () -> {
             RowsOfSigns x = Rows.with("abcdefgh");
             due.is("textSize(-1)", x.textSize(-1), UNKNOWN);
             for (int t = 0; t < 8; t++) {
