@@ -72,7 +72,8 @@ public final class FaceTest {
             if (Modifier.isPublic(modifiers)) {
                 due.is(field + " is static and final",
                         Modifier.isStatic(modifiers) && Modifier.isFinal(modifiers) ? 1 : 0, 1);
-                seen.add(field.getName() + "=" + field.getInt(null));
+                due.is(field + " is an int", field.getType().toString(), "int");
+                seen.add(field.getName() + "=" + field.get(null));
             } else if (!field.isSynthetic()) {
                 due.is(field + " is private", Modifier.isPrivate(modifiers) ? 1 : 0, 1);
                 due.is(field + " is final, if static",
